@@ -1,0 +1,270 @@
+import java.util.Random;
+
+/** Promises 5 to 14: person, group, put, back, belongs, rowOf, feature, item, itemOf, copy. */
+final class WhoTest {
+    private static final Due DUE = new Due("WhoTest");
+    private static final int BAD = RightsHouse.BAD, NO = RightsHouse.NO, FULL = RightsHouse.FULL, NONE = RightsHouse.NONE;
+
+    public static void main(String[] args) {
+        counts();
+        rows();
+        badRows();
+        rings();
+        fullRows();
+        belongsAsWalked();
+        features();
+        sorts();
+        copies();
+        DUE.end();
+    }
+
+    private static RightsHouse house(int persons, int groups) {
+        RightsHouse x = new RightsHouse();
+        for (int i = 0; i < persons; i++) {
+            x.person();
+        }
+        for (int i = 0; i < groups; i++) {
+            x.group();
+        }
+        return x;
+    }
+
+    private static void counts() {
+        RightsHouse x = new RightsHouse();
+        for (int i = 0; i < 20; i++) {
+            DUE.is("person " + i, x.person(), i);
+        }
+        DUE.is("person 20", x.person(), FULL);
+        for (int i = 0; i < 16; i++) {
+            DUE.is("group " + i, x.group(), i);
+        }
+        DUE.is("group 16", x.group(), FULL);
+    }
+
+    private static void rows() {
+        RightsHouse x = house(2, 3);
+        x.tick(5);
+        DUE.is("put", x.put(0, 0, 10, 20), 0);
+        DUE.is("put a group", x.put(100, 1, 12, 18), 1);
+        DUE.is("row MEMBER", x.rowOf(1, 0), 100);
+        DUE.is("row GROUP", x.rowOf(1, 1), 1);
+        DUE.is("row from", x.rowOf(1, 2), 12);
+        DUE.is("row until", x.rowOf(1, 3), 18);
+        DUE.is("row KNOWN from", x.rowOf(1, 4), 5);
+        DUE.is("row KNOWN until", x.rowOf(1, 5), NONE);
+        DUE.is("rowOf what 6", x.rowOf(1, 6), BAD);
+        DUE.is("rowOf what -1", x.rowOf(1, -1), BAD);
+        DUE.is("rowOf none", x.rowOf(2, 0), BAD);
+        DUE.is("belongs ahead of from", x.belongs(0, 0, 9, 5), 0);
+        DUE.is("belongs at from", x.belongs(0, 0, 10, 5), 1);
+        DUE.is("belongs at the last", x.belongs(0, 0, 19, 5), 1);
+        DUE.is("belongs at until", x.belongs(0, 0, 20, 5), 0);
+        DUE.is("belongs ahead of KNOWN", x.belongs(0, 0, 10, 4), 0);
+        DUE.is("belongs, KNOWN later", x.belongs(0, 0, 10, 1000000000), 1);
+        DUE.is("belongs by two rows", x.belongs(0, 1, 12, 5), 1);
+        DUE.is("belongs, second row over", x.belongs(0, 1, 18, 5), 0);
+        DUE.is("belongs to no more", x.belongs(0, 2, 12, 5), 0);
+        DUE.is("nobody else belongs", x.belongs(1, 0, 12, 5), 0);
+        x.tick(2);
+        DUE.is("back", x.back(0), 1);
+        DUE.is("back again", x.back(0), NO);
+        DUE.is("back none", x.back(2), BAD);
+        DUE.is("back -1", x.back(-1), BAD);
+        DUE.is("row KNOWN until", x.rowOf(0, 5), 7);
+        DUE.is("belongs as KNOWN at 6", x.belongs(0, 1, 12, 6), 1);
+        DUE.is("belongs as KNOWN at 7", x.belongs(0, 1, 12, 7), 0);
+        DUE.is("put and taken back at once", x.put(1, 2, 0, 9), 2);
+        x.back(2);
+        DUE.is("never KNOWN", x.belongs(1, 2, 3, 7), 0);
+    }
+
+    private static void badRows() {
+        RightsHouse x = house(1, 1);
+        DUE.is("put no person", x.put(1, 0, 0, 1), BAD);
+        DUE.is("put -1", x.put(-1, 0, 0, 1), BAD);
+        DUE.is("put no group as member", x.put(101, 0, 0, 1), BAD);
+        DUE.is("put 99", x.put(99, 0, 0, 1), BAD);
+        DUE.is("put into none", x.put(0, 1, 0, 1), BAD);
+        DUE.is("put from below 0", x.put(0, 0, -1, 1), BAD);
+        DUE.is("put until beyond", x.put(0, 0, 0, 1000000001), BAD);
+        DUE.is("put until not above", x.put(0, 0, 5, 5), BAD);
+        DUE.is("put until below", x.put(0, 0, 5, 4), BAD);
+        DUE.is("put at the edges", x.put(0, 0, 0, 1000000000), 0);
+        DUE.is("belongs no person", x.belongs(1, 0, 0, 0), BAD);
+        DUE.is("belongs no group", x.belongs(0, 1, 0, 0), BAD);
+        DUE.is("belongs a group", x.belongs(100, 0, 0, 0), BAD);
+        DUE.is("belongs t below", x.belongs(0, 0, -1, 0), BAD);
+        DUE.is("belongs t beyond", x.belongs(0, 0, 1000000001, 0), BAD);
+        DUE.is("belongs known below", x.belongs(0, 0, 0, -1), BAD);
+        DUE.is("belongs known beyond", x.belongs(0, 0, 0, 1000000001), BAD);
+        DUE.is("belongs at the last moment", x.belongs(0, 0, 1000000000, 0), 0);
+    }
+
+    private static void rings() {
+        RightsHouse x = house(1, 3);
+        DUE.is("a ring of one", x.put(100, 0, 0, 1), NO);
+        x.put(100, 1, 0, 1);
+        x.put(101, 2, 5, 6);
+        DUE.is("a ring, whatever the moments", x.put(102, 0, 8, 9), NO);
+        DUE.is("a ring of two", x.put(101, 0, 8, 9), NO);
+        DUE.is("BAD ahead of NO", x.put(102, 0, 9, 9), BAD);
+        DUE.is("two ways are no ring", x.put(100, 2, 8, 9), 2);
+        x.back(1);
+        DUE.is("still by the other way", x.put(102, 0, 8, 9), NO);
+        x.back(2);
+        DUE.is("with a row taken back it is none", x.put(102, 0, 8, 9), 3);
+    }
+
+    private static void fullRows() {
+        RightsHouse x = house(1, 2);
+        x.put(100, 1, 0, 9);
+        for (int i = 1; i < 200; i++) {
+            DUE.is("row " + i, x.put(0, 0, 0, 9), i);
+        }
+        DUE.is("row 200", x.put(0, 0, 0, 9), FULL);
+        x.back(5);
+        DUE.is("rows taken back count", x.put(0, 0, 0, 9), FULL);
+        DUE.is("NO ahead of FULL", x.put(101, 0, 0, 9), NO);
+        DUE.is("BAD ahead of NO, FULL", x.put(101, 0, 9, 9), BAD);
+    }
+
+    /** The answers of belongs() against a walk over the rows that were put. */
+    private static void belongsAsWalked() {
+        Random random = new Random(5);
+        for (int run = 0; run < 40; run++) {
+            RightsHouse x = house(4, 6);
+            int rows = 0;
+            for (int i = 0; i < 30; i++) {
+                x.tick(random.nextInt(3));
+                int member = random.nextBoolean() ? random.nextInt(4) : 100 + random.nextInt(6);
+                int from = random.nextInt(20);
+                if (x.put(member, random.nextInt(6), from, from + 1 + random.nextInt(20)) >= 0) {
+                    rows++;
+                }
+                if (rows > 0 && random.nextInt(4) == 0) {
+                    x.back(random.nextInt(rows));
+                }
+            }
+            for (int i = 0; i < 60; i++) {
+                int p = random.nextInt(4);
+                int g = random.nextInt(6);
+                int t = random.nextInt(40);
+                int known = random.nextInt(50);
+                DUE.is("belongs(" + p + ", " + g + ", " + t + ", " + known + ") in run " + run,
+                        x.belongs(p, g, t, known), leads(x, rows, p, g, t, known, 0) ? 1 : 0);
+            }
+        }
+    }
+
+    private static boolean leads(RightsHouse x, int rows, int member, int group, int t, int known, int depth) {
+        for (int r = 0; r < rows && depth < 8; r++) {
+            boolean stands = x.rowOf(r, 2) <= t && t < x.rowOf(r, 3) && x.rowOf(r, 4) <= known
+                    && (x.rowOf(r, 5) == NONE || known < x.rowOf(r, 5));
+            if (stands && x.rowOf(r, 0) == member
+                    && (x.rowOf(r, 1) == group || leads(x, rows, 100 + x.rowOf(r, 1), group, t, known, depth + 1))) {
+                return true;
+            }
+        }
+        return false;
+    }
+
+    private static void features() {
+        RightsHouse x = house(1, 1);
+        DUE.is("thing", x.thing(0, NONE), 1);
+        DUE.is("feature", x.feature(0, 0, 1, 20), 20);
+        DUE.is("feature of a thing", x.feature(101, 7, 1, 3), 3);
+        DUE.is("feature of THING 0", x.feature(100, 7, 3, 0), 0);
+        DUE.is("no item at first but 0", x.itemOf(101, 7, 1, 2), 0);
+        DUE.is("feature 8", x.feature(0, 8, 1, 1), BAD);
+        DUE.is("feature -1", x.feature(0, -1, 1, 1), BAD);
+        DUE.is("feature of no person", x.feature(1, 0, 1, 1), BAD);
+        DUE.is("feature of no thing", x.feature(102, 0, 1, 1), BAD);
+        DUE.is("feature of -1", x.feature(-1, 0, 1, 1), BAD);
+        DUE.is("feature sort 4", x.feature(0, 0, 4, 1), BAD);
+        DUE.is("feature sort -1", x.feature(0, 0, -1, 1), BAD);
+        DUE.is("feature n 21", x.feature(0, 0, 1, 21), BAD);
+        DUE.is("feature n -1", x.feature(0, 0, 1, -1), -13);
+        DUE.is("BAD ahead of a FAILURE", x.feature(0, 0, 4, -1), BAD);
+        DUE.is("what fails changes nothing", x.itemOf(0, 0, 1, 19), 0);
+        x.item(0, 0, 4, 77);
+        DUE.is("feature anew", x.feature(0, 0, 1, 10), 10);
+        DUE.is("all 0 again", x.itemOf(0, 0, 1, 4), 0);
+        DUE.is("NOTHING, n does not count", x.feature(0, 0, 0, 21), 0);
+        DUE.is("NOTHING, n below 0", x.feature(0, 0, 0, -5), 0);
+        DUE.is("NOTHING is there", x.itemOf(0, 0, 1, 0), -11);
+        x.drop(1);
+        DUE.is("feature of a GONE thing", x.feature(101, 7, 1, 3), BAD);
+        DUE.is("item of a GONE thing", x.item(101, 7, 1, 3), BAD);
+        DUE.is("itemOf of a GONE thing", x.itemOf(101, 7, 1, 1), BAD);
+        DUE.is("copy of a GONE thing", x.copy(101, 7, 0, 0, 0, 0, 0), BAD);
+        DUE.is("copy to a GONE thing", x.copy(100, 7, 0, 101, 7, 0, 0), BAD);
+    }
+
+    private static void sorts() {
+        RightsHouse x = house(1, 0);
+        DUE.is("item of NOTHING", x.item(0, 0, 0, 1), -11);
+        DUE.is("item of NOTHING, no place", x.item(0, 0, -1, 1), -11);
+        x.feature(0, 0, 1, 2);
+        x.feature(0, 1, 2, 2);
+        x.feature(0, 2, 3, 2);
+        DUE.is("item -1", x.item(0, 0, -1, 1), -12);
+        DUE.is("item 2", x.item(0, 0, 2, 1), -12);
+        DUE.is("item BAD", x.item(0, 8, 2, 1), BAD);
+        DUE.is("item", x.item(0, 0, 1, Long.MIN_VALUE), 1);
+        DUE.is("a WHOLE", x.itemOf(0, 0, 1, 1), Long.MIN_VALUE);
+        x.item(0, 1, 0, Double.doubleToLongBits(-2.5));
+        DUE.is("a REAL", x.itemOf(0, 1, 2, 0), Double.doubleToLongBits(-2.5));
+        x.item(0, 1, 1, 0xfff0000000000001L);
+        DUE.is("no number", x.itemOf(0, 1, 2, 1), 0x7ff8000000000000L);
+        x.item(0, 1, 1, 0x7ff0000000000000L);
+        DUE.is("endless", x.itemOf(0, 1, 2, 1), 0x7ff0000000000000L);
+        x.item(0, 1, 1, Long.MIN_VALUE);
+        DUE.is("-0", x.itemOf(0, 1, 2, 1), Long.MIN_VALUE);
+        x.item(0, 2, 0, 0x1_ffff_fffeL);
+        DUE.is("a MARK", x.itemOf(0, 2, 3, 0), -2);
+        x.item(0, 2, 0, 0x1_7fff_fffeL);
+        DUE.is("a MARK above 0", x.itemOf(0, 2, 3, 0), 0x7ffffffe);
+        DUE.is("another SORT", x.itemOf(0, 2, 1, 0), -14);
+        DUE.is("another SORT ahead of the place", x.itemOf(0, 2, 2, 9), -14);
+        DUE.is("no place", x.itemOf(0, 2, 3, 2), -12);
+        DUE.is("place -1", x.itemOf(0, 2, 3, -1), -12);
+        DUE.is("NOTHING ahead of all", x.itemOf(0, 3, 3, -1), -11);
+        DUE.is("sort 0", x.itemOf(0, 2, 0, 0), BAD);
+        DUE.is("sort 4", x.itemOf(0, 2, 4, 0), BAD);
+        DUE.is("no bearer", x.itemOf(1, 2, 3, 0), BAD);
+    }
+
+    private static void copies() {
+        RightsHouse x = house(1, 0);
+        x.feature(0, 0, 1, 5);
+        for (int i = 0; i < 5; i++) {
+            x.item(0, 0, i, i + 1);
+        }
+        x.feature(100, 1, 1, 3);
+        x.feature(100, 2, 3, 3);
+        DUE.is("copy", x.copy(0, 0, 3, 100, 1, 1, 2), 2);
+        DUE.is("copied 0", x.itemOf(100, 1, 1, 0), 0);
+        DUE.is("copied 1", x.itemOf(100, 1, 1, 1), 4);
+        DUE.is("copied 2", x.itemOf(100, 1, 1, 2), 5);
+        DUE.is("copy over itself", x.copy(0, 0, 0, 0, 0, 1, 4), 4);
+        for (int i = 0; i < 5; i++) {
+            DUE.is("over itself " + i, x.itemOf(0, 0, 1, i), i == 0 ? 1 : i);
+        }
+        DUE.is("copy over itself down", x.copy(0, 0, 1, 0, 0, 0, 4), 4);
+        DUE.is("down", x.itemOf(0, 0, 1, 2), 3);
+        DUE.is("copy none at the end", x.copy(0, 0, 5, 100, 1, 3, 0), 0);
+        DUE.is("copy from beyond", x.copy(0, 0, 6, 100, 1, 0, 0), -12);
+        DUE.is("copy to beyond", x.copy(0, 0, 0, 100, 1, 2, 2), -12);
+        DUE.is("copy too many", x.copy(0, 0, 3, 100, 1, 0, 3), -12);
+        DUE.is("copy i below 0", x.copy(0, 0, -1, 100, 1, 0, 1), -12);
+        DUE.is("copy j below 0", x.copy(0, 0, 0, 100, 1, -1, 1), -12);
+        DUE.is("copy n below 0", x.copy(0, 0, 0, 100, 1, 0, -1), -12);
+        DUE.is("copy running over", x.copy(0, 0, 1, 100, 1, 1, Integer.MAX_VALUE), -12);
+        DUE.is("copy unlike SORTS", x.copy(0, 0, -1, 100, 2, 0, 1), -14);
+        DUE.is("copy from NOTHING", x.copy(0, 5, -1, 100, 2, 0, 1), -11);
+        DUE.is("copy to NOTHING", x.copy(0, 0, 0, 100, 5, 0, 1), -11);
+        DUE.is("copy BAD", x.copy(0, 0, 0, 100, 8, 0, 1), BAD);
+        DUE.is("copy BAD bearer", x.copy(2, 0, 0, 100, 1, 0, 1), BAD);
+        DUE.is("what fails changes nothing", x.itemOf(100, 1, 1, 2), 5);
+    }
+}
