@@ -1021,6 +1021,8 @@ public final class RightsHouse {
     /** Persons, groups, the rows by which they belong, and the features that persons and things bear. */
     private static final class Who {
         static final int PERSONS = 20, GROUPS = 16, ROWS = 200, OTHERS = 100;
+        /** In the place of a moment: the rows not taken back, whatever their moments. */
+        private static final int WHENEVER = -1;
         static final int MEMBER = 0, GROUP = 1, FROM = 2, UNTIL = 3, KNOWN_FROM = 4, KNOWN_UNTIL = 5, ROW_COLUMNS = 6;
         static final int FEATURES = 8, ITEMS = 20, BEARERS = PERSONS + Things.THINGS;
         static final int NOTHING = 0, WHOLES = 1, REALS = 2, MARKS = 3;
@@ -1086,6 +1088,9 @@ public final class RightsHouse {
         }
 
         private boolean counts(int r, int t, int known) {
+            if (t == WHENEVER) {
+                return isLasting(r);
+            }
             int at = r * ROW_COLUMNS;
             boolean stands = row[at + FROM] <= t && t < row[at + UNTIL];
             return stands && row[at + KNOWN_FROM] <= known && (isLasting(r) || known < row[at + KNOWN_UNTIL]);
@@ -1124,24 +1129,8 @@ public final class RightsHouse {
             return member >= OTHERS && (some >> (member - OTHERS) & 1) == 1;
         }
 
-        /** Rings are looked for over all rows not taken back, whatever their moments. */
         boolean wouldRing(int member, int group) {
-            if (member < OTHERS) {
-                return false;
-            }
-            int reached = 1 << group;
-            for (int round = 0; round < GROUPS; round++) {
-                int before = reached;
-                for (int r = 0; r < rows; r++) {
-                    if (isFromAmong(r, reached) && isLasting(r)) {
-                        reached |= 1 << row[r * ROW_COLUMNS + GROUP];
-                    }
-                }
-                if (reached == before) {
-                    break;
-                }
-            }
-            return (reached >> (member - OTHERS) & 1) == 1;
+            return member >= OTHERS && (reachedFrom(1 << group, WHENEVER, WHENEVER) >> (member - OTHERS) & 1) == 1;
         }
 
         static int slotOfPerson(int person, int feature) {

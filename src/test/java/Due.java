@@ -22,6 +22,17 @@ final class Due {
         System.exit(wrong == 0 ? 0 : 1);
     }
 
+    static RightsHouse house(int persons, int groups) {
+        RightsHouse x = new RightsHouse();
+        for (int i = 0; i < persons; i++) {
+            x.person();
+        }
+        for (int i = 0; i < groups; i++) {
+            x.group();
+        }
+        return x;
+    }
+
     /** Feeds a text to the tape. */
     static void text(RightsHouse x, String text) {
         for (int i = 0; i < text.length(); i += 8) {

@@ -18,16 +18,8 @@ final class GuardTest {
         DUE.end();
     }
 
-    private static RightsHouse house(int persons) {
-        RightsHouse x = new RightsHouse();
-        for (int p = 0; p < persons; p++) {
-            x.person();
-        }
-        return x;
-    }
-
     private static void sums() {
-        RightsHouse x = house(4);
+        RightsHouse x = Due.house(4, 0);
         DUE.is("guarded", x.guarded(0, Long.MAX_VALUE), 0);
         DUE.is("guarded again", x.guarded(0, Long.MAX_VALUE), Long.MAX_VALUE);
         DUE.is("guarded no person", x.guarded(4, 1), BAD);
@@ -56,13 +48,13 @@ final class GuardTest {
         DUE.is("knows what 2", x.knows(0, 2), BAD);
         DUE.is("knows what -1", x.knows(0, -1), BAD);
         DUE.is("knows asker 4", x.knows(4, 0), BAD);
-        RightsHouse y = house(20);
+        RightsHouse y = Due.house(20, 0);
         DUE.is("all twenty", y.sum(0, (1 << 20) - 1), 0);
         DUE.is("all but one", y.sum(0, (1 << 19) - 1), NO);
     }
 
     private static void shares() {
-        RightsHouse x = house(4);
+        RightsHouse x = Due.house(4, 0);
         x.sum(0, 3);
         x.sum(1, 6);
         x.sum(2, 7);
@@ -89,7 +81,7 @@ final class GuardTest {
     }
 
     private static void full() {
-        RightsHouse x = house(20);
+        RightsHouse x = Due.house(20, 0);
         int told = 0;
         // Pairs of one of the first ten and one of the last ten give nobody away.
         for (int a = 0; a < 10 && told < 40; a++) {
@@ -113,7 +105,7 @@ final class GuardTest {
 
     /** Three pairs of three persons give each away, but by halves alone. */
     private static void fractions() {
-        RightsHouse x = house(4);
+        RightsHouse x = Due.house(4, 0);
         DUE.is("0 1", x.sum(0, 3), 0);
         DUE.is("1 2", x.sum(0, 6), 0);
         DUE.is("0 2", x.sum(0, 5), NO);
@@ -124,7 +116,7 @@ final class GuardTest {
     }
 
     private static void latePersons() {
-        RightsHouse x = house(2);
+        RightsHouse x = Due.house(2, 0);
         DUE.is("both", x.sum(0, 3), 0);
         DUE.is("a third is none", x.sum(0, 7), BAD);
         x.person();
@@ -138,7 +130,7 @@ final class GuardTest {
         Random random = new Random(23);
         for (int run = 0; run < 120; run++) {
             int persons = 3 + random.nextInt(18);
-            RightsHouse x = house(persons);
+            RightsHouse x = Due.house(persons, 0);
             List<Long> told = new ArrayList<>();
             for (int i = 0; i < 60 && told.size() < 40; i++) {
                 long set = 1 + (long) (random.nextDouble() * ((1L << persons) - 1));

@@ -1,7 +1,11 @@
 import java.io.IOException;
+import java.lang.reflect.Method;
+import java.lang.reflect.Modifier;
 import java.nio.file.Files;
 import java.nio.file.Path;
+import java.util.HashSet;
 import java.util.List;
+import java.util.Set;
 import java.util.regex.Matcher;
 import java.util.regex.Pattern;
 
@@ -40,6 +44,12 @@ final class LanguageTest {
     private static void shapes(List<String> lines) {
         int classes = 0;
         int fields = 0;
+        Set<String> face = new HashSet<>();
+        for (Method method : RightsHouse.class.getDeclaredMethods()) {
+            if (Modifier.isPublic(method.getModifiers())) {
+                face.add(method.getName());
+            }
+        }
         String inClass = "";
         String method = "";
         boolean isConstructor = false;
@@ -66,6 +76,8 @@ final class LanguageTest {
                 begin = i;
                 end = line.replaceAll("\\S.*", "") + "}";
                 int parameters = newMethod.group(2).isEmpty() ? 0 : newMethod.group(2).split(",").length;
+                boolean isFace = line.contains(" public ");
+                DUE.is(inClass + "." + method + " bears a public name", !isFace && face.contains(method) ? 1 : 0, 0);
                 DUE.is("parameters of " + inClass + "." + method, parameters > 7 ? parameters : 0, 0);
             } else if (method.isEmpty()) {
                 fields += FIELD.matcher(line).find() ? 1 : 0;

@@ -24,10 +24,7 @@ final class LendsTest {
 
     /** Persons 0 to 4; thing 1 of person 0 in 0, thing 2 of person 1 in 1, thing 3 of nobody in 1. */
     private static RightsHouse house() {
-        RightsHouse x = new RightsHouse();
-        for (int i = 0; i < 5; i++) {
-            x.person();
-        }
+        RightsHouse x = Due.house(5, 0);
         x.thing(0, 0);
         x.thing(1, 1);
         x.thing(1, NONE);
@@ -173,10 +170,7 @@ final class LendsTest {
     }
 
     private static void furthest() {
-        RightsHouse x = new RightsHouse();
-        for (int p = 0; p < 20; p++) {
-            x.person();
-        }
+        RightsHouse x = Due.house(20, 0);
         x.thing(0, 0);
         for (int p = 0; p < 19; p++) {
             DUE.is("lend " + p, x.lend(p, p + 1, R, 1, 9, 20 - p, -1), p);

@@ -14,12 +14,7 @@ final class LogTest {
     }
 
     private static RightsHouse house() {
-        RightsHouse x = new RightsHouse();
-        x.person();
-        x.person();
-        x.person();
-        x.group();
-        x.group();
+        RightsHouse x = Due.house(3, 2);
         x.thing(0, 0);
         return x;
     }

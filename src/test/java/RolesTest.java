@@ -20,19 +20,8 @@ final class RolesTest {
         DUE.end();
     }
 
-    private static RightsHouse house(int persons, int groups) {
-        RightsHouse x = new RightsHouse();
-        for (int i = 0; i < persons; i++) {
-            x.person();
-        }
-        for (int i = 0; i < groups; i++) {
-            x.group();
-        }
-        return x;
-    }
-
     private static void laws() {
-        RightsHouse x = house(1, 2);
+        RightsHouse x = Due.house(1, 2);
         DUE.is("law kind 5", x.law(5, 0, 1), BAD);
         DUE.is("law kind -1", x.law(-1, 0, 1), BAD);
         DUE.is("law no group", x.law(0, 2, 1), BAD);
@@ -51,7 +40,7 @@ final class RolesTest {
     }
 
     private static void fullLaws() {
-        RightsHouse x = house(1, 2);
+        RightsHouse x = Due.house(1, 2);
         for (int i = 0; i < 20; i++) {
             DUE.is("law " + i, x.law(2, 0, 24), i);
         }
@@ -60,7 +49,7 @@ final class RolesTest {
     }
 
     private static void gives() {
-        RightsHouse x = house(2, 2);
+        RightsHouse x = Due.house(2, 2);
         x.tick(5);
         DUE.is("give", x.give(0, 1, 1, 9), 0);
         DUE.is("its MEMBER", x.rowOf(0, 0), 0);
@@ -91,7 +80,7 @@ final class RolesTest {
     }
 
     private static void givers() {
-        RightsHouse x = house(4, 4);
+        RightsHouse x = Due.house(4, 4);
         x.put(1, 2, 0, 50);
         x.put(2, 3, 0, 50);
         DUE.is("law 0", x.law(4, 1, 0), 0);
@@ -116,7 +105,7 @@ final class RolesTest {
     }
 
     private static void takes() {
-        RightsHouse x = house(2, 2);
+        RightsHouse x = Due.house(2, 2);
         x.put(0, 0, 0, 5);
         x.put(0, 0, 70, 80);
         x.put(0, 1, 0, 5);
@@ -138,7 +127,7 @@ final class RolesTest {
     }
 
     private static void most() {
-        RightsHouse x = house(4, 2);
+        RightsHouse x = Due.house(4, 2);
         x.law(2, 1, 2);
         x.put(0, 0, 0, 50);
         x.put(100, 1, 0, 50);
@@ -151,7 +140,7 @@ final class RolesTest {
     }
 
     private static void both() {
-        RightsHouse x = house(2, 3);
+        RightsHouse x = Due.house(2, 3);
         x.law(3, 0, 1);
         DUE.is("without the other one", x.give(0, 0, 0, 9), NO);
         DUE.is("broken", x.broken(), 0);
@@ -165,7 +154,7 @@ final class RolesTest {
     }
 
     private static void lawsInOrder() {
-        RightsHouse x = house(1, 3);
+        RightsHouse x = Due.house(1, 3);
         x.law(3, 0, 1);
         x.law(2, 0, 0);
         x.law(0, 0, 2);
@@ -179,7 +168,7 @@ final class RolesTest {
     }
 
     private static void fullRows() {
-        RightsHouse x = house(2, 2);
+        RightsHouse x = Due.house(2, 2);
         x.law(2, 1, 0);
         for (int i = 0; i < 200; i++) {
             x.put(0, 0, 0, 9);
@@ -195,7 +184,7 @@ final class RolesTest {
     }
 
     private static void breaches() {
-        RightsHouse x = house(2, 3);
+        RightsHouse x = Due.house(2, 3);
         DUE.is("no laws", x.breach(0), NONE);
         DUE.is("no law 1", x.breach(1), BAD);
         x.law(4, 0, 1);
@@ -218,7 +207,7 @@ final class RolesTest {
     }
 
     private static void sessions() {
-        RightsHouse x = house(2, 3);
+        RightsHouse x = Due.house(2, 3);
         DUE.is("no person", x.session(2), BAD);
         for (int i = 0; i < 8; i++) {
             DUE.is("session " + i, x.session(i % 2), i);
@@ -244,7 +233,7 @@ final class RolesTest {
     }
 
     private static void sessionLaws() {
-        RightsHouse x = house(1, 4);
+        RightsHouse x = Due.house(1, 4);
         for (int g = 0; g < 4; g++) {
             x.put(0, g, 0, 99);
         }
@@ -273,7 +262,7 @@ final class RolesTest {
     }
 
     private static void asksIn() {
-        RightsHouse x = house(2, 4);
+        RightsHouse x = Due.house(2, 4);
         x.put(0, 0, 0, 99);
         x.put(100, 1, 0, 50);
         x.put(0, 2, 0, 20);

@@ -23,12 +23,7 @@ final class RulesTest {
 
     /** Persons 0 to 2, groups 0 and 1, things 1 (of 0, in 0), 2 (of 1, in 1), 3 (GONE); 0 is in group 0, that in 1. */
     private static RightsHouse house() {
-        RightsHouse x = new RightsHouse();
-        x.person();
-        x.person();
-        x.person();
-        x.group();
-        x.group();
+        RightsHouse x = Due.house(3, 2);
         x.thing(0, 0);
         x.thing(1, 1);
         x.thing(0, 0);

@@ -18,17 +18,6 @@ final class WhoTest {
         DUE.end();
     }
 
-    private static RightsHouse house(int persons, int groups) {
-        RightsHouse x = new RightsHouse();
-        for (int i = 0; i < persons; i++) {
-            x.person();
-        }
-        for (int i = 0; i < groups; i++) {
-            x.group();
-        }
-        return x;
-    }
-
     private static void counts() {
         RightsHouse x = new RightsHouse();
         for (int i = 0; i < 20; i++) {
@@ -42,7 +31,7 @@ final class WhoTest {
     }
 
     private static void rows() {
-        RightsHouse x = house(2, 3);
+        RightsHouse x = Due.house(2, 3);
         x.tick(5);
         DUE.is("put", x.put(0, 0, 10, 20), 0);
         DUE.is("put a group", x.put(100, 1, 12, 18), 1);
@@ -79,7 +68,7 @@ final class WhoTest {
     }
 
     private static void badRows() {
-        RightsHouse x = house(1, 1);
+        RightsHouse x = Due.house(1, 1);
         DUE.is("put no person", x.put(1, 0, 0, 1), BAD);
         DUE.is("put -1", x.put(-1, 0, 0, 1), BAD);
         DUE.is("put no group as member", x.put(101, 0, 0, 1), BAD);
@@ -101,7 +90,7 @@ final class WhoTest {
     }
 
     private static void rings() {
-        RightsHouse x = house(1, 3);
+        RightsHouse x = Due.house(1, 3);
         DUE.is("a ring of one", x.put(100, 0, 0, 1), NO);
         x.put(100, 1, 0, 1);
         x.put(101, 2, 5, 6);
@@ -116,7 +105,7 @@ final class WhoTest {
     }
 
     private static void fullRows() {
-        RightsHouse x = house(1, 2);
+        RightsHouse x = Due.house(1, 2);
         x.put(100, 1, 0, 9);
         for (int i = 1; i < 200; i++) {
             DUE.is("row " + i, x.put(0, 0, 0, 9), i);
@@ -132,7 +121,7 @@ final class WhoTest {
     private static void belongsAsWalked() {
         Random random = new Random(5);
         for (int run = 0; run < 40; run++) {
-            RightsHouse x = house(4, 6);
+            RightsHouse x = Due.house(4, 6);
             int rows = 0;
             for (int i = 0; i < 30; i++) {
                 x.tick(random.nextInt(3));
@@ -169,7 +158,7 @@ final class WhoTest {
     }
 
     private static void features() {
-        RightsHouse x = house(1, 1);
+        RightsHouse x = Due.house(1, 1);
         DUE.is("thing", x.thing(0, NONE), 1);
         DUE.is("feature", x.feature(0, 0, 1, 20), 20);
         DUE.is("feature of a thing", x.feature(101, 7, 1, 3), 3);
@@ -201,7 +190,7 @@ final class WhoTest {
     }
 
     private static void sorts() {
-        RightsHouse x = house(1, 0);
+        RightsHouse x = Due.house(1, 0);
         DUE.is("item of NOTHING", x.item(0, 0, 0, 1), -11);
         DUE.is("item of NOTHING, no place", x.item(0, 0, -1, 1), -11);
         x.feature(0, 0, 1, 2);
@@ -235,7 +224,7 @@ final class WhoTest {
     }
 
     private static void copies() {
-        RightsHouse x = house(1, 0);
+        RightsHouse x = Due.house(1, 0);
         x.feature(0, 0, 1, 5);
         for (int i = 0; i < 5; i++) {
             x.item(0, 0, i, i + 1);
