@@ -165,6 +165,9 @@ final class FlowsTest {
         x.statement(KEEP, 7, 1, 0);
         DUE.is("flow -1", x.flow(-1), BAD);
         DUE.is("flow 2001", x.flow(2001), BAD);
+        DUE.is("one more than it needs", x.flow(7), 1);
+        DUE.is("more than it needs", x.flow(2000), 1);
+        DUE.is("nothing behind its end", x.variable(0), -2147483648);
         DUE.is("flow", x.flow(6), 1);
         DUE.is("SET, running over", x.variable(0), -2147483648);
         DUE.is("given", x.variable(1), 2147483647);

@@ -5,6 +5,7 @@ final class LogTest {
 
     public static void main(String[] args) {
         rows();
+        firstRow();
         notLogged();
         sums();
         forged();
@@ -59,6 +60,15 @@ final class LogTest {
         DUE.is("row -2", x.logged(-2, 0), BAD);
         DUE.is("what 7", x.logged(0, 7), BAD);
         DUE.is("what -1", x.logged(0, -1), BAD);
+    }
+
+    private static void firstRow() {
+        RightsHouse x = house();
+        DUE.is("give ROW 0", x.give(1, 1, 0, 99), 0);
+        row(x, 0, 2, 0, 1, 1, 0, 0);
+        Due.policy(x, 0, "yes any r any");
+        x.inForce(0);
+        DUE.is("could at 0", x.could(0, 1, 0, 2), 2);
     }
 
     private static void notLogged() {
@@ -136,6 +146,9 @@ final class LogTest {
             DUE.is("wrong by " + what, x.wrong(), 5);
             x.forge(5, what, was);
         }
+        x.forge(0, 0, 7);
+        DUE.is("wrong from the first on", x.wrong(), 0);
+        x.forge(0, 0, 0);
         x.forge(6, 0, 8);
         x.ask(0, 0, 0);
         DUE.is("a row behind a forged one hangs on its SUM", x.wrong(), 6);
@@ -178,6 +191,7 @@ final class LogTest {
         x.tick(6);
         x.inForce(1);
         x.tick(2);
+        DUE.is("at 0", x.could(0, 1, 0, 0), NONE);
         DUE.is("at 3", x.could(0, 1, 3, 0), NONE);
         DUE.is("at 4", x.could(0, 1, 4, 0), 2);
         DUE.is("at 5", x.could(0, 1, 5, 0), 1);

@@ -56,6 +56,11 @@ final class RulesTest {
         fault("yes any r any; no own all t0/ ; maybe p2 o t2");
         fault("!Yes any r any");
         fault("!yess any r any");
+        fault("!xes any r any");
+        fault("yes !bny r any");
+        fault("yes any !bll any");
+        fault("yes any r any !of 1 = 1");
+        fault("yes any r any !rust 1");
         fault("!any r any");
         fault("!1 any r any");
         fault("!; yes any r any");
@@ -129,6 +134,11 @@ final class RulesTest {
         condition("1 - - - 2 = 3");
         condition("now = age");
         condition("!nower = 1");
+        condition("!row = 1");
+        condition("!bize me.a = 1");
+        condition("!be.a = 1");
+        condition("1 !on me.a");
+        condition("1 = 1 !end 1 = 1");
         condition("1 = 1 !now");
         condition("1=1 !if");
         condition("12345678.123456 = 123456789.1");
@@ -238,6 +248,12 @@ final class RulesTest {
         DUE.is("a fault at the 1199th byte's number", x.cut(1200), 0);
         DUE.is("a text of 1200 bytes", x.policy(0), 2);
         DUE.is("its answer is no", x.asked(2, 0, R, 0, 0), 0);
+        for (int i = 0; i < 150; i++) {
+            x.feed(8, 0x2828282828282828L);
+        }
+        DUE.is("1200 signs", x.policy(0), -10);
+        String signs = "yes any r any if 1=1" + many(";", 1180);
+        DUE.is("1180 signs", Due.policy(x, 0, signs), -10 - 21);
         String ors = "yes any r any if 1=2" + many("or 1=2", 190) + " or 1=1";
         DUE.is("or, many times", x.asked(Due.policy(x, 0, ors), 0, R, 0, 0), 1);
     }
@@ -316,6 +332,7 @@ final class RulesTest {
         x.cutOff(2, false);
         DUE.is("no to x", x.asked(p, 0, X, 1, 0), 0);
         DUE.is("by rule 1", x.made(0), 1);
+        DUE.is("without a DUTY", x.made(1), 0);
         DUE.is("no to what holds x", x.asked(p, 0, O, 1, 0), 0);
         DUE.is("by rule 1, too", x.made(0), 1);
         DUE.is("no does not reach w", x.asked(p, 0, W, 1, 0), 0);
@@ -346,6 +363,10 @@ final class RulesTest {
         DUE.is("by rank: FAIL", way(house(), 1, "yes any r any; maybe any r any; yes any r any if 1/0 = 1", 0, R, 0), 2);
         DUE.is("by rank: maybe", way(house(), 1, "yes any r any; maybe any r any; yes any r any", 0, R, 0), 1);
         DUE.is("by rank: yes", way(house(), 1, "no any w any; yes any r any; yes any r any", 0, R, 0), 1);
+        DUE.is("by rank, wherever the thing lies", way(house(), 1, "yes any r t2; maybe any r any", 0, R, 2), 1);
+        DUE.is("by rank, whoever", way(house(), 1, "yes p0 r any; maybe any r any", 0, R, 2), 1);
+        DUE.is("the deepest, whoever", way(house(), 2, "yes p0 r any; maybe any r any", 0, R, 2), 1);
+        DUE.is("who says most, wherever", way(house(), 3, "yes any r t2; maybe any r any", 0, R, 2), 1);
         RightsHouse x = house();
         int p = Due.policy(x, 0, all);
         x.asked(p, 0, R, 0, 0);

@@ -127,6 +127,10 @@ final class ThingsTest {
         DUE.is("d holds x by g", x.doesHold(3, 2), 1);
         DUE.is("no more", x.holds(4, 2, false), 1);
         DUE.is("g holds d no more", x.doesHold(4, 3), 0);
+        DUE.is("r holds x", x.holds(0, 2, true), 1);
+        DUE.is("w holds x by r", x.doesHold(1, 2), 1);
+        DUE.is("w holds d by r and x", x.doesHold(1, 3), 1);
+        DUE.is("r holds d by x", x.doesHold(0, 3), 1);
         DUE.is("holds the same", x.holds(2, 2, true), BAD);
         DUE.is("holds 6", x.holds(6, 2, true), BAD);
         DUE.is("holds -1", x.holds(2, -1, true), BAD);

@@ -13,6 +13,7 @@ final class WhoTest {
         fullRows();
         belongsAsWalked();
         features();
+        manyFeatures();
         sorts();
         copies();
         DUE.end();
@@ -175,9 +176,12 @@ final class WhoTest {
         DUE.is("feature n -1", x.feature(0, 0, 1, -1), -13);
         DUE.is("BAD ahead of a FAILURE", x.feature(0, 0, 4, -1), BAD);
         DUE.is("what fails changes nothing", x.itemOf(0, 0, 1, 19), 0);
+        x.feature(0, 1, 1, 1);
+        x.item(0, 1, 0, 78);
         x.item(0, 0, 4, 77);
         DUE.is("feature anew", x.feature(0, 0, 1, 10), 10);
         DUE.is("all 0 again", x.itemOf(0, 0, 1, 4), 0);
+        DUE.is("the next one stays", x.itemOf(0, 1, 1, 0), 78);
         DUE.is("NOTHING, n does not count", x.feature(0, 0, 0, 21), 0);
         DUE.is("NOTHING, n below 0", x.feature(0, 0, 0, -5), 0);
         DUE.is("NOTHING is there", x.itemOf(0, 0, 1, 0), -11);
@@ -187,6 +191,25 @@ final class WhoTest {
         DUE.is("itemOf of a GONE thing", x.itemOf(101, 7, 1, 1), BAD);
         DUE.is("copy of a GONE thing", x.copy(101, 7, 0, 0, 0, 0, 0), BAD);
         DUE.is("copy to a GONE thing", x.copy(100, 7, 0, 101, 7, 0, 0), BAD);
+    }
+
+    /** Each bearer has features of its own. */
+    private static void manyFeatures() {
+        RightsHouse x = Due.house(20, 0);
+        for (int i = 1; i < 40; i++) {
+            x.thing(0, NONE);
+        }
+        int[] bearers = {0, 1, 18, 19, 100, 101, 138, 139};
+        for (int i = 0; i < 64; i++) {
+            x.feature(bearers[i / 8], i % 8, 1, 20);
+            x.item(bearers[i / 8], i % 8, 0, i + 1000);
+            x.item(bearers[i / 8], i % 8, 19, i);
+        }
+        for (int i = 0; i < 64; i++) {
+            DUE.is("first item of " + bearers[i / 8] + ", " + i % 8, x.itemOf(bearers[i / 8], i % 8, 1, 0), i + 1000);
+            DUE.is("last item of " + bearers[i / 8] + ", " + i % 8, x.itemOf(bearers[i / 8], i % 8, 1, 19), i);
+        }
+        DUE.is("me and it", x.asked(Due.policy(x, 0, "yes any r any if me.h[19] = 31 and it.a[19] = 56"), 19, 0, 39, 0), 1);
     }
 
     private static void sorts() {
