@@ -2170,11 +2170,11 @@ public final class RightsHouse {
             if (!fitsWho(at) || !fitsAct(at, act) || !fitsThing(at)) {
                 return NONE;
             }
-            int truth = truthOf(policies.rule[at + Policies.CODE], policies.rule[at + Policies.CODE_END]);
-            if (truth == FAIL) {
+            int condition = truthOf(policies.rule[at + Policies.CODE], policies.rule[at + Policies.CODE_END]);
+            if (condition == FAIL) {
                 return ANSWER_FAIL;
             }
-            return truth == TRUE || truth == UNKNOWN && effect != ANSWER_YES ? effect : NONE;
+            return condition == TRUE || condition == UNKNOWN && effect != ANSWER_YES ? effect : NONE;
         }
 
         private boolean fitsWho(int at) {

@@ -63,6 +63,8 @@ final class FlowsTest {
         }
         DUE.is("statement 60", x.statement(KEEP, 0, 0, 0), FULL);
         DUE.is("BAD ahead of FULL", x.statement(KEEP, 10, 0, 0), BAD);
+        DUE.is("60 are TIGHT", x.tight(), NONE);
+        DUE.is("60 run", x.flow(60), 1);
         DUE.is("erase", x.erase(), 60);
         DUE.is("erase again", x.erase(), 0);
         DUE.is("from 0 on", x.statement(KEEP, 0, 0, 0), 0);

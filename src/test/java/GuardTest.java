@@ -97,8 +97,10 @@ final class GuardTest {
         DUE.is("told again ahead of FULL", x.sum(0, 1L | 1L << 10), 0);
         DUE.is("BAD ahead of FULL", x.sum(0, 0), BAD);
         DUE.is("another one", x.sum(1, 1L << 5 | 1L << 15), 0);
+        DUE.is("the rank of the first alone", x.knows(0, 1), 13);
         DUE.is("share", x.share(0, 1), 1);
         DUE.is("41 together", x.knows(1, 0), 41);
+        DUE.is("their rank", x.knows(1, 1), 14);
         DUE.is("the other one's put, too", x.sum(1, 1L | 1L << 10), 0);
         DUE.is("each set once", x.knows(1, 0), 41);
     }

@@ -94,12 +94,12 @@ final class LendsTest {
         DUE.is("again", x.endLend(1, 0), NO);
         DUE.is("taken back", x.lendOf(1, 7), 1);
         DUE.is("by who lent it", x.endLend(0, 0), 1);
+        x.lend(0, 1, R, 1, 50, 1, -1);
         x.lend(0, 1, R, 1, 50, 2, -1);
         x.lend(1, 2, R, 1, 50, 1, -1);
-        x.lend(0, 1, R, 1, 50, 1, -1);
         x.lend(2, 3, R, 1, 50, 0, -1);
         DUE.is("lent on", x.stands(3, R, 1, 0), 1);
-        x.endLend(2, 0);
+        x.endLend(3, 0);
         DUE.is("who lends has it still", x.stands(1, R, 1, 0), 1);
         DUE.is("but not to be lent on so far", x.stands(2, R, 1, 0), 0);
         DUE.is("nor further", x.stands(3, R, 1, 0), 0);

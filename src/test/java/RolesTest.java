@@ -7,6 +7,7 @@ final class RolesTest {
         laws();
         fullLaws();
         gives();
+        manyOfAll();
         givers();
         takes();
         most();
@@ -70,6 +71,7 @@ final class RolesTest {
         DUE.is("APART", x.give(0, 0, 1, 9), NO);
         DUE.is("broken", x.broken(), 0);
         DUE.is("the row is not put", x.rowOf(2, 0), BAD);
+        DUE.is("nor can it be taken", x.take(0, 0, 1), 0);
         DUE.is("BAD", x.give(0, 0, 1, 5), BAD);
         DUE.is("BAD leaves broken", x.broken(), 0);
         DUE.is("another one", x.give(1, 0, 1, 9), 2);
@@ -77,6 +79,34 @@ final class RolesTest {
         DUE.is("put asks none of them", x.put(0, 0, 0, 9), 3);
         DUE.is("LAWS that do not hold already", x.give(1, 0, 1, 9), NO);
         DUE.is("broken", x.broken(), 0);
+    }
+
+    /** As many of all as there may be. */
+    private static void manyOfAll() {
+        RightsHouse x = Due.house(20, 16);
+        x.law(4, 0, 15);
+        x.law(0, 14, 15);
+        x.law(1, 14, 15);
+        for (int i = 3; i < 20; i++) {
+            x.law(2, 15, 1);
+        }
+        for (int i = 0; i < 8; i++) {
+            x.session(19);
+        }
+        DUE.is("GIVER as LAW 0", x.give(0, 0, 19, 9), NO);
+        DUE.is("broken 0", x.broken(), 0);
+        DUE.is("the last PERSON to the last GROUP", x.give(19, 15, 0, 9), 0);
+        DUE.is("gives", x.give(0, 0, 19, 9), 1);
+        DUE.is("all hold", x.breach(0), NONE);
+        DUE.is("on in the last SESSION", x.switchOn(7, 15), 1);
+        x.put(19, 14, 0, 9);
+        DUE.is("NOT AT ONCE in the last SESSION", x.switchOn(7, 14), NO);
+        DUE.is("broken 2", x.broken(), 2);
+        x.put(18, 15, 0, 9);
+        DUE.is("APART", x.breach(0), 1);
+        DUE.is("MOST", x.breach(2), 3);
+        DUE.is("the last LAW", x.breach(19), 19);
+        DUE.is("behind it", x.breach(20), NONE);
     }
 
     private static void givers() {

@@ -8,6 +8,7 @@ final class RulesTest {
         faults();
         deepFaults();
         manyRules();
+        greatNumbers();
         policies();
         inForce();
         requests();
@@ -115,6 +116,10 @@ final class RulesTest {
         condition("1 !");
         condition("1 = !");
         condition("1 = 1 !=");
+        condition("1 <=!");
+        condition("1 >=!");
+        condition("1 <>!");
+        condition("1 <!");
         condition("1 = 1 !1");
         condition("1 = 1 !)");
         condition("1 = 1 and !");
@@ -256,6 +261,29 @@ final class RulesTest {
         DUE.is("1180 signs", Due.policy(x, 0, signs), -10 - 21);
         String ors = "yes any r any if 1=2" + many("or 1=2", 190) + " or 1=1";
         DUE.is("or, many times", x.asked(Due.policy(x, 0, ors), 0, R, 0, 0), 1);
+    }
+
+    private static void greatNumbers() {
+        RightsHouse x = Due.house(20, 16);
+        for (int i = 1; i < 40; i++) {
+            x.thing(0, NONE);
+        }
+        x.put(7, 12, 0, 9);
+        int p = Due.policy(x, 0, "yes p12 r t31; maybe g12 r t13/");
+        DUE.is("p12, t31", x.asked(p, 12, R, 31, 0), 1);
+        DUE.is("g12, t13/", x.asked(p, 7, R, 13, 0), 2);
+        DUE.is("nobody else", x.who(p, R, 31, 1), NONE);
+        DUE.is("p20", Due.policy(x, 0, "yes p20 r any"), -14);
+        DUE.is("g16", Due.policy(x, 0, "yes g16 r any"), -14);
+        DUE.is("t40", Due.policy(x, 0, "yes any r t40"), -20);
+        String exact = "yes any r any if 1" + many("+1", 588) + "=589";
+        DUE.is("its length", exact.length(), 1198);
+        Due.text(x, "  " + exact);
+        DUE.is("a text of 1200 bytes up to its last", x.cut(1200), 0);
+        DUE.is("its number", x.policy(0), 1);
+        DUE.is("its answer", x.asked(1, 0, R, 0, 0), 1);
+        Due.text(x, "   " + exact.substring(0, 1194) + "<=5");
+        DUE.is("another text of 1200 bytes", x.asked(x.policy(0), 0, R, 0, 0), 0);
     }
 
     private static void policies() {
@@ -435,6 +463,8 @@ final class RulesTest {
         truth("1/0 = 1 and 1 = 2", 35);
         truth("not 1/0 = 1", 35);
         truth("known me.a and not known me.e and known me.d", 1);
+        DUE.is("each rule has a condition of its own", answer("maybe any r any if 1 = 2; yes any r any if known me.a"), 1);
+        DUE.is("or none", answer("maybe any r any; yes any r any if known me.a"), 2);
     }
 
     private static void failures() {
@@ -504,6 +534,11 @@ final class RulesTest {
         x.tick(100);
         DUE.is("NOW", x.may(p, 0, R, 0), NONE);
         DUE.is("NOW, who", x.who(p, R, 2, 0), 2);
+        int all = Due.policy(x, 0, "yes any r any");
+        DUE.is("the last person", x.who(all, R, 2, 2), 2);
+        DUE.is("no more persons", x.who(all, R, 2, 3), NONE);
+        DUE.is("the last thing", x.may(all, 0, R, 2), 2);
+        DUE.is("no more things", x.may(all, 0, R, 3), NONE);
     }
 
     private static void compares() {

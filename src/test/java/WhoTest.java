@@ -178,8 +178,10 @@ final class WhoTest {
         DUE.is("what fails changes nothing", x.itemOf(0, 0, 1, 19), 0);
         x.feature(0, 1, 1, 1);
         x.item(0, 1, 0, 78);
+        x.item(0, 0, 0, 76);
         x.item(0, 0, 4, 77);
         DUE.is("feature anew", x.feature(0, 0, 1, 10), 10);
+        DUE.is("all 0 again, the first", x.itemOf(0, 0, 1, 0), 0);
         DUE.is("all 0 again", x.itemOf(0, 0, 1, 4), 0);
         DUE.is("the next one stays", x.itemOf(0, 1, 1, 0), 78);
         DUE.is("NOTHING, n does not count", x.feature(0, 0, 0, 21), 0);

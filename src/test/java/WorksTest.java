@@ -226,6 +226,11 @@ final class WorksTest {
         DUE.is("no person", x.needed(0, 2, 9), BAD);
         DUE.is("no tries", x.needed(0, 0, 0), BAD);
         DUE.is("too many told", x.needed(0, 0, 20001), BAD);
+        RightsHouse two = house(2, 8);
+        two.work();
+        two.step(1, 0);
+        two.perform(1, 0, 0, 9);
+        DUE.is("DONE in another WORK", two.needed(0, 0, 99), 0);
         RightsHouse y = house(4, 2);
         y.put(3, 1, 0, 50);
         y.step(0, 1);
