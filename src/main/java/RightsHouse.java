@@ -11,6 +11,7 @@ public final class RightsHouse {
     private static final int TAPE_BYTES = 1200;
     private static final int MOST_FORCES = 40;
     private static final int PRIME = 2147483647;
+    private static final int HOW_MANY = -1;
 
     private static final int FAILED = -10;
     private static final int NOTHING_THERE = 1, NO_PLACE = 2, BELOW_ZERO = 3, OTHER_SORT = 4, BY_ZERO = 5;
@@ -658,7 +659,7 @@ public final class RightsHouse {
     }
 
     public int chain(int i) {
-        if (i == -1) {
+        if (i == HOW_MANY) {
             return lends.chainLength;
         }
         return isAmong(i, lends.chainLength) ? lends.chain[i] : BAD;
@@ -705,10 +706,13 @@ public final class RightsHouse {
 
     public int gain(int i, int what) {
         int gains = lends.countGains();
-        if (i < -1 || i >= gains || !isAmong(what, Lends.GAIN_COLUMNS)) {
+        if (i == HOW_MANY) {
+            return gains;
+        }
+        if (!isAmong(i, gains) || !isAmong(what, Lends.GAIN_COLUMNS)) {
             return BAD;
         }
-        return i == -1 ? gains : lends.gain[i * Lends.GAIN_COLUMNS + what];
+        return lends.gain[i * Lends.GAIN_COLUMNS + what];
     }
 
     // ---- flows
@@ -763,11 +767,14 @@ public final class RightsHouse {
     }
 
     public int said(int channel, int i) {
-        int c = channel - Flows.VARIABLES;
-        if (channel < Flows.VARIABLES || channel >= Flows.LABELS || i < -1 || i >= flows.saidCount[c]) {
+        if (channel < Flows.VARIABLES || channel >= Flows.LABELS) {
             return BAD;
         }
-        return i == -1 ? flows.saidCount[c] : flows.said[c * Flows.MOST_SAID + i];
+        int c = channel - Flows.VARIABLES;
+        if (i == HOW_MANY) {
+            return flows.saidCount[c];
+        }
+        return isAmong(i, flows.saidCount[c]) ? flows.said[c * Flows.MOST_SAID + i] : BAD;
     }
 
     public int variable(int v) {
@@ -975,10 +982,13 @@ public final class RightsHouse {
     }
 
     public int logged(int i, int what) {
-        if (i < -1 || i >= logRows || !isAmong(what, LOG_COLUMNS)) {
+        if (i == HOW_MANY) {
+            return logRows;
+        }
+        if (!isAmong(i, logRows) || !isAmong(what, LOG_COLUMNS)) {
             return BAD;
         }
-        return i == -1 ? logRows : log[i * LOG_COLUMNS + what];
+        return log[i * LOG_COLUMNS + what];
     }
 
     public int forge(int i, int what, int v) {

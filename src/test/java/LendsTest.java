@@ -17,6 +17,7 @@ final class LendsTest {
         byWalking();
         keys();
         gains();
+        howManyGains();
         badKeys();
         allKeys();
         DUE.end();
@@ -283,6 +284,25 @@ final class LendsTest {
         DUE.is("gain -2", x.gain(-2, 0), BAD);
         DUE.is("gain what 3", x.gain(0, 3), BAD);
         DUE.is("gain what -1", x.gain(0, -1), BAD);
+    }
+
+    /** With i = -1 no GAIN is named, so what does not count. */
+    private static void howManyGains() {
+        int[] whats = {-1, 0, 2, 3, 99, Integer.MIN_VALUE, Integer.MAX_VALUE};
+        RightsHouse x = new RightsHouse();
+        for (int what : whats) {
+            DUE.is("no GAINS, what " + what, x.gain(-1, what), 0);
+        }
+        DUE.is("none to tell of", x.gain(0, 0), BAD);
+        DUE.is("nor with what 3", x.gain(0, 3), BAD);
+        x.key(2, 1, 1);
+        x.key(1, 0, 4);
+        x.key(1, 2, 2);
+        for (int what : whats) {
+            DUE.is("two GAINS, what " + what, x.gain(-1, what), 2);
+            DUE.is("gain -2, what " + what, x.gain(-2, what), BAD);
+            DUE.is("gain 2, what " + what, x.gain(2, what), BAD);
+        }
     }
 
     private static void badKeys() {

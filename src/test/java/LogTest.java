@@ -5,6 +5,7 @@ final class LogTest {
 
     public static void main(String[] args) {
         rows();
+        howMany();
         firstRow();
         notLogged();
         sums();
@@ -60,6 +61,19 @@ final class LogTest {
         DUE.is("row -2", x.logged(-2, 0), BAD);
         DUE.is("what 7", x.logged(0, 7), BAD);
         DUE.is("what -1", x.logged(0, -1), BAD);
+    }
+
+    /** With i = -1 no ROW is named, so what does not count. */
+    private static void howMany() {
+        RightsHouse empty = new RightsHouse();
+        RightsHouse x = logged();
+        for (int what : new int[] {-1, 0, 6, 7, 99, Integer.MIN_VALUE, Integer.MAX_VALUE}) {
+            DUE.is("no ROWS, what " + what, empty.logged(-1, what), 0);
+            DUE.is("ROW 0 of none, what " + what, empty.logged(0, what), BAD);
+            DUE.is("7 ROWS, what " + what, x.logged(-1, what), 7);
+            DUE.is("ROW -2, what " + what, x.logged(-2, what), BAD);
+            DUE.is("ROW 7, what " + what, x.logged(7, what), BAD);
+        }
     }
 
     private static void firstRow() {
