@@ -12,6 +12,8 @@ final class FlowsTest {
         tightInBlocks();
         lowered();
         runs();
+        runsAnew();
+        beyondTheEnd();
         loops();
         nestedLoops();
         said();
@@ -190,6 +192,72 @@ final class FlowsTest {
         x.statement(KEEP, 1, 3, 0);
         DUE.is("IF over the end", x.flow(1), 1);
         DUE.is("left out", x.variable(1), 2147483647);
+    }
+
+    /** A run begins anew, wherever the one ahead of it was cut off. */
+    private static void runsAnew() {
+        RightsHouse x = new RightsHouse();
+        x.given(0, 2);
+        x.given(1, 2);
+        x.given(9, -1);
+        x.statement(WHILE, 0, 4, 0);
+        x.statement(SET, 0, 0, 9);
+        x.statement(WHILE, 1, 2, 0);
+        x.statement(SAY, 1, 13, 0);
+        x.statement(SET, 1, 1, 9);
+        x.statement(KEEP, 5, 7, 0);
+        // WHILE, SET, 3 WHILE, 2 (SAY, SET); WHILE, SET, WHILE; WHILE; KEEP
+        for (int most = 0; most < 14; most++) {
+            DUE.is("cut off at " + most, x.flow(most), 0);
+            DUE.is("anew behind " + most, x.flow(14), 1);
+            DUE.is("to its end", x.variable(5), 7);
+            DUE.is("said anew", x.said(13, -1), 2);
+        }
+        DUE.is("BAD is no run", x.flow(2001), BAD);
+        DUE.is("the latest one stays", x.variable(5), 7);
+    }
+
+    /** "what is not there yet counts as empty"; "0 .. 20". */
+    private static void beyondTheEnd() {
+        RightsHouse x = new RightsHouse();
+        x.statement(IF, 0, 20, 0);
+        x.statement(KEEP, 1, 3, 0);
+        DUE.is("IF not, over the end", x.flow(2000), 1);
+        DUE.is("left out", x.variable(1), 0);
+        DUE.is("one alone", x.flow(1), 1);
+        x.given(0, 1);
+        DUE.is("IF so", x.flow(2), 1);
+        DUE.is("come to", x.variable(1), 3);
+        x.erase();
+        x.statement(IF, 0, 0, 0);
+        x.statement(KEEP, 2, 3, 0);
+        DUE.is("IF of none", x.flow(2), 1);
+        DUE.is("what is behind it", x.variable(2), 3);
+        x.given(0, 0);
+        DUE.is("IF of none, not so", x.flow(2), 1);
+        DUE.is("what is behind it, too", x.variable(2), 3);
+        x.erase();
+        x.statement(WHILE, 0, 20, 0);
+        x.statement(WHILE, 1, 19, 0);
+        x.statement(IF, 2, 18, 0);
+        DUE.is("WHILE not, over the end", x.flow(1), 1);
+        x.given(0, 1);
+        DUE.is("WHILE without an end", x.flow(2000), 0);
+        x.erase();
+        x.given(0, 0);
+        // LOWER of 0 by way of variable 2, whose number is no reach
+        x.statement(LOWER, 1, 2, 0);
+        x.statement(KEEP, 3, 1, 0);
+        x.statement(KEEP, 4, 1, 0);
+        x.statement(KEEP, 5, 1, 0);
+        DUE.is("LOWER of 0", x.flow(4), 1);
+        DUE.is("the next one", x.variable(3), 1);
+        DUE.is("the last one", x.variable(5), 1);
+        x.erase();
+        x.statement(SET, 1, 2, 3);
+        x.statement(KEEP, 4, 6, 0);
+        DUE.is("SET of 0", x.flow(1), 0);
+        DUE.is("one more", x.flow(2), 1);
     }
 
     private static void loops() {

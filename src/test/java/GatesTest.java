@@ -12,7 +12,9 @@ final class GatesTest {
         tries();
         deep();
         deepCaught();
+        deepest();
         limits();
+        mostOps();
         missing();
         DUE.end();
     }
@@ -190,6 +192,61 @@ final class GatesTest {
         entered("each frame goes on", x, 40, 20, 20, 21, 0, 0, 0, 1);
     }
 
+    /** 10: "No more than 20 frames: the 21st call throws DEEP likewise." */
+    private static void deepest() {
+        // Each method calls the next one, the last one counts.
+        for (int depth = 10; depth <= 12; depth++) {
+            RightsHouse x = house(1);
+            for (int m = 1; m < depth; m++) {
+                x.method(0);
+            }
+            for (int m = 0; m < depth - 1; m++) {
+                x.op(m, CALL, m + 1, 0);
+            }
+            x.op(depth - 1, COUNT, 1, 0);
+            DUE.is(depth + " deep", x.enter(0, 1000), 0);
+            DUE.is("frames ENDED", x.entered(2), depth);
+            // The first one tries itself behind that: in frame k the last one is frame k + depth - 1.
+            x.op(0, TRY, 0, 0);
+            DUE.is("each within the one ahead of it", x.enter(0, 1000), 0);
+            DUE.is("as often as 20 frames let", x.entered(1), 20 - depth + 1);
+            DUE.is("then DEEP, once", x.entered(7), 1);
+            DUE.is("each call but that ENDED", x.entered(3) - x.entered(2), 1);
+        }
+        RightsHouse y = house(1, 3);
+        y.op(0, MARK, 0, 7);
+        DUE.is("by MARK", y.enter(0, 1000), 2);
+        entered("by MARK", y, 20, 0, 20, 21, 0, 0, 0, 1);
+        y.op(1, TRY, 0, 0);
+        y.op(1, COUNT, 5, 0);
+        DUE.is("caught further out", y.enter(1, 1000), 0);
+        entered("caught further out", y, 21, 5, 20, 21, 0, 0, 0, 1);
+    }
+
+    /** 77: "with so many OPS at most (0 .. 1000)", each of them a call that ends. */
+    private static void mostOps() {
+        RightsHouse x = house(1, 1, 1, 1, 1);
+        // 1 has 12 calls of 4, which is empty; 2 has 11 of 1, 143 in all; 3 has 10 of 1 and 2 of 4, 132 in all.
+        for (int i = 0; i < 12; i++) {
+            x.op(1, CALL, 4, 0);
+            x.op(3, CALL, i < 10 ? 1 : 4, 0);
+        }
+        for (int i = 0; i < 11; i++) {
+            x.op(2, CALL, 1, 0);
+        }
+        // 6 of 2 (864), 1 of 3 (133), 3 of 4: 1000
+        for (int i = 0; i < 10; i++) {
+            x.op(0, CALL, i < 6 ? 2 : i < 7 ? 3 : 4, 0);
+        }
+        DUE.is("1000 calls", x.enter(0, 1000), 0);
+        entered("1000 calls", x, 1000, 0, 1001, 1001, NONE, NONE, 0, 0);
+        DUE.is("one less", x.enter(0, 999), 3);
+        entered("one less", x, 999, 0, 999, 1000, NONE, NONE, 0, 0);
+        x.op(0, COUNT, 1, 0);
+        DUE.is("one more", x.enter(0, 1000), 3);
+        entered("one more", x, 1000, 0, 1000, 1001, NONE, NONE, 0, 0);
+    }
+
     private static void limits() {
         RightsHouse x = house(1, 1);
         x.op(0, CALL, 1, 0);
@@ -223,5 +280,15 @@ final class GatesTest {
         entered("a METHOD that does not stand", x, 2, 0, 0, 3, NONE, NONE, 0, 0);
         x.method(0);
         DUE.is("now it stands", x.enter(0, 9), 0);
+        for (int m = 2; m < 12; m++) {
+            for (int kind : new int[] {CALL, MARK, TRY}) {
+                RightsHouse y = house(1, 1);
+                y.op(0, TRY, 1, 0);
+                y.op(0, COUNT, 1, 0);
+                y.op(1, kind, m, 1);
+                DUE.is("METHOD " + m + " by " + kind, y.enter(0, 9), 4);
+                entered("METHOD " + m + " by " + kind, y, 2, 0, 0, 3, NONE, NONE, 0, 0);
+            }
+        }
     }
 }

@@ -11,6 +11,7 @@ final class GuardTest {
     public static void main(String[] args) {
         sums();
         shares();
+        sharesOfAll();
         full();
         fractions();
         latePersons();
@@ -78,6 +79,37 @@ final class GuardTest {
         DUE.is("the first knows it", x.knows(0, 0), 3);
         DUE.is("rank 3", x.knows(0, 1), 3);
         DUE.is("from then on", x.sum(1, 8), NO);
+    }
+
+    /** 72: "0: they do", whichever of them is told first; 73: "each set once". */
+    private static void sharesOfAll() {
+        for (int a = 0; a < 4; a++) {
+            for (int b = 0; b < 4; b++) {
+                if (a == b) {
+                    continue;
+                }
+                RightsHouse x = Due.house(4, 0);
+                DUE.is("share " + a + " " + b, x.share(a, b), 1);
+                DUE.is("they do, " + a + " " + b, x.share(a, b), 0);
+                DUE.is("they do, " + b + " " + a, x.share(b, a), 0);
+                x.sum(a, 3);
+                x.sum(b, 3);
+                x.sum(b, 12);
+                x.sum(a, 12);
+                DUE.is("each set once, " + a, x.knows(a, 0), 2);
+                DUE.is("each set once, " + b, x.knows(b, 0), 2);
+                for (int c = 0; c < 4; c++) {
+                    boolean isOther = c != a && c != b;
+                    DUE.is("others, " + c, isOther ? x.knows(c, 0) : 0, 0);
+                    DUE.is("others share, " + c, isOther ? x.share(c, a) : 1, 1);
+                    DUE.is("with both, " + c, isOther ? x.share(b, c) : 0, 0);
+                }
+                x.sum(0, 15);
+                x.sum(3, 15);
+                DUE.is("all four", x.knows(2, 0), 3);
+                DUE.is("their rank", x.knows(1, 1), 2);
+            }
+        }
     }
 
     private static void full() {

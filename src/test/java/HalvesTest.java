@@ -11,6 +11,7 @@ final class HalvesTest {
         halves();
         joins();
         refusedJoins();
+        tapesAnew();
         thereAndBack();
         DUE.end();
     }
@@ -76,6 +77,31 @@ final class HalvesTest {
         RightsHouse x = new RightsHouse();
         x.feed(5, 1);
         DUE.is("five bytes", x.joined(), NO);
+    }
+
+    /** What was on THE TAPE ahead of it is none of its HALVES. */
+    private static void tapesAnew() {
+        RightsHouse x = new RightsHouse();
+        Due.numbers(x, 1, 14, 2, 25, 3, 40, 4, 77, 5, 99);
+        DUE.is("five", x.joined() >= 0 ? 1 : 0, 1);
+        Due.numbers(x, 1, 12, 3, 22);
+        DUE.is("two", x.joined(), 7);
+        Due.numbers(x, 9, 8);
+        DUE.is("one", x.joined(), 8);
+        Due.numbers(x, 1, 12, 3, 22, 4, 1, 5, 1);
+        DUE.is("cut", x.cut(16), 16);
+        DUE.is("two again", x.joined(), 7);
+        Due.numbers(x, 5, 2);
+        DUE.is("half", x.half(7, 3), 40);
+        DUE.is("half of no more", x.half(7, 3), 7);
+        for (int twice = 1; twice < 10; twice++) {
+            long[] pairs = new long[20];
+            for (int n = 0; n < 10; n++) {
+                pairs[2 * n] = n == 9 ? twice : n + 1;
+                pairs[2 * n + 1] = 256 * (n + 1);
+            }
+            DUE.is(twice + " twice", joined(pairs), NO);
+        }
     }
 
     private static void thereAndBack() {

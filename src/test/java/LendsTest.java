@@ -13,10 +13,13 @@ final class LendsTest {
         ends();
         stands();
         uses();
+        chainOfWhatIsGiven();
         furthest();
         byWalking();
         keys();
         gains();
+        gainsNoMore();
+        mostGains();
         howManyGains();
         badKeys();
         allKeys();
@@ -182,6 +185,29 @@ final class LendsTest {
         DUE.is("not used", x.lendOf(3, 6), 1);
     }
 
+    /** "what it gives (its ACT, its THING) STANDS for who lent it": the LEND's, not those of the RIGHT asked for. */
+    private static void chainOfWhatIsGiven() {
+        RightsHouse x = house();
+        x.lend(0, 1, R, 1, 90, 9, -1);
+        x.lend(0, 1, W, 1, 90, 9, -1);
+        x.lend(1, 2, W, 1, 90, 8, -1);
+        DUE.is("r by w", x.stands(2, R, 3, 0), 1);
+        DUE.is("two LENDS", x.chain(-1), 2);
+        DUE.is("the last one", x.chain(0), 2);
+        DUE.is("the one that gives w", x.chain(1), 1);
+        x.endLend(1, 0);
+        DUE.is("no w, no r by it", x.stands(2, R, 3, 0), 0);
+        RightsHouse y = house();
+        y.lend(0, 2, R, 1, 90, 9, -1);
+        y.lend(2, 1, R, 3, 90, 7, -1);
+        y.lend(2, 1, R, 1, 90, 7, -1);
+        y.lend(1, 3, R, 1, 90, 6, -1);
+        DUE.is("on a THING in it", y.stands(3, R, 3, 0), 1);
+        DUE.is("the one that gives all of it", y.chain(1), 2);
+        DUE.is("and the owner's", y.chain(2), 0);
+        DUE.is("three LENDS", y.chain(-1), 3);
+    }
+
     private static void furthest() {
         RightsHouse x = Due.house(20, 0);
         x.thing(0, 0);
@@ -284,6 +310,56 @@ final class LendsTest {
         DUE.is("gain -2", x.gain(-2, 0), BAD);
         DUE.is("gain what 3", x.gain(0, 3), BAD);
         DUE.is("gain what -1", x.gain(0, -1), BAD);
+    }
+
+    /** "by the KEYS as they are": what came by others is not had any more. */
+    private static void gainsNoMore() {
+        RightsHouse x = new RightsHouse();
+        x.key(0, 1, 1);
+        x.key(1, 0, 12);
+        x.key(1, 2, 3);
+        x.key(2, 3, 8);
+        DUE.is("some GAINS", x.gain(-1, 0), 8);
+        DUE.is("0 has them on itself", x.ever(0, 0, 12), 1);
+        x.key(0, 1, 0);
+        DUE.is("fewer GAINS", x.gain(-1, 0), 3);
+        DUE.is("0 has none on itself", x.ever(0, 0, 4), NONE);
+        x.key(1, 2, 0);
+        DUE.is("no GAINS", x.gain(-1, 0), 0);
+        DUE.is("none to tell of", x.gain(0, 0), BAD);
+        for (int a = 0; a < 12; a++) {
+            for (int b = 0; b < 12; b++) {
+                int due = a == 1 && b == 0 || a == 2 && b == 3 ? 0 : NONE;
+                DUE.is("ever " + a + " " + b, x.ever(a, b, a == 1 ? 12 : 8), due);
+            }
+        }
+    }
+
+    /** Keys by which each of the four bits comes to each pair apart from the others. */
+    private static void mostGains() {
+        int[][] keys = {
+            {0, 3, 4}, {0, 4, 1}, {0, 7, 1}, {0, 8, 8}, {0, 9, 4}, {0, 11, 4}, {1, 2, 2}, {1, 3, 2}, {1, 4, 2}, {1, 5, 2},
+            {1, 9, 2}, {2, 8, 2}, {2, 11, 2}, {3, 0, 2}, {3, 6, 2}, {3, 7, 2}, {3, 10, 2}, {4, 1, 2}, {4, 2, 1}, {4, 5, 4},
+            {5, 3, 1}, {5, 10, 1}, {5, 11, 1}, {6, 1, 1}, {6, 5, 8}, {6, 7, 4}, {7, 0, 8}, {7, 8, 4}, {8, 0, 4}, {8, 2, 4},
+            {8, 3, 8}, {8, 4, 4}, {8, 6, 8}, {8, 9, 8}, {8, 10, 8}, {9, 1, 8}, {9, 2, 8}, {9, 4, 8}, {9, 7, 8}, {9, 10, 4},
+            {9, 11, 8}, {10, 0, 1}, {10, 1, 4}, {10, 5, 1}, {10, 6, 4}, {11, 6, 1}, {11, 8, 1}, {11, 9, 1}};
+        RightsHouse x = new RightsHouse();
+        for (int[] key : keys) {
+            x.key(key[0], key[1], key[2]);
+        }
+        DUE.is("all but those that were there", x.gain(-1, 0), 12 * 12 * 4 - keys.length);
+        int bits = 0;
+        for (int i = 0; i < 528; i++) {
+            bits += Integer.bitCount(x.gain(i, 2));
+        }
+        DUE.is("one bit each", bits, 528);
+        DUE.is("no GAIN 528", x.gain(528, 0), BAD);
+        for (int a = 0; a < 12; a++) {
+            DUE.is("all on itself, " + a, x.ever(a, a, 15) > 0 ? 1 : 0, 1);
+            DUE.is("all on the next one, " + a, x.ever(a, (a + 1) % 12, 15) > 0 ? 1 : 0, 1);
+        }
+        int last = x.gain(527, 0) * 12 + x.gain(527, 1);
+        DUE.is("with the last one", x.ever(last / 12, last % 12, x.gain(527, 2)), 528);
     }
 
     /** With i = -1 no GAIN is named, so what does not count. */

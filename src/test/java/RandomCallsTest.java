@@ -5,7 +5,10 @@ import java.util.Comparator;
 import java.util.List;
 import java.util.Random;
 
-/** All promises: for any arguments in any state no call throws, like calls answer alike, and what is BAD changes nothing. */
+/**
+ * All promises: for any arguments in any state no call throws, like calls answer alike, what is BAD changes nothing, and
+ * what is refused otherwise or FAILS nothing but what the document tells.
+ */
 final class RandomCallsTest {
     private static final Due DUE = new Due("RandomCallsTest");
     private static final long[] EDGES = {
@@ -36,17 +39,20 @@ final class RandomCallsTest {
         RightsHouse all = new RightsHouse();
         RightsHouse twin = new RightsHouse();
         RightsHouse withoutBad = new RightsHouse();
+        Unrefused unrefused = new Unrefused();
         // Some runs go far beyond the 512 calls: their answers are free, but no call may throw.
         int calls = seed % 8 == 0 ? 4000 : 512;
-        prepare(all);
-        prepare(twin);
-        prepare(withoutBad);
+        prepare(all, seed);
+        prepare(twin, seed);
+        prepare(withoutBad, seed);
+        prepare(unrefused.house, seed);
         for (int i = 0; i < calls; i++) {
             if (random.nextInt(20) == 0) {
                 String text = TEXTS[random.nextInt(TEXTS.length)];
                 Due.text(all, text);
                 Due.text(twin, text);
                 Due.text(withoutBad, text);
+                Due.text(unrefused.house, text);
             }
             Method method = methods.get(random.nextInt(methods.size()));
             Object[] arguments = arguments(random, method);
@@ -56,14 +62,53 @@ final class RandomCallsTest {
             if (answer != RightsHouse.BAD || mayBeMinusOne(method.getName())) {
                 DUE.is(told + " without what is BAD", answer(told, withoutBad, method, arguments), answer);
             }
+            unrefused.call(told, method, arguments, answer);
         }
     }
 
+    /** Whether a call that changes something may answer any number, which then is no refusal. */
     private static boolean mayBeMinusOne(String name) {
         return name.equals("given") || name.equals("guarded") || name.equals("forge") || name.equals("sum");
     }
 
-    private static void prepare(RightsHouse x) {
+    /** A house to which no call is made that another one refused, and which must answer the others as that one does. */
+    private static final class Unrefused {
+        private final RightsHouse house = new RightsHouse();
+        /** Whether the other one was refused what broken(), chain() tell of. */
+        private boolean isBrokenOther;
+        private boolean isChainOther;
+
+        private void call(String told, Method method, Object[] arguments, long answer) throws Exception {
+            String name = method.getName();
+            boolean isRefused = answer >= RightsHouse.FULL && answer <= RightsHouse.BAD || answer <= -10;
+            if (isRefused && !mayBeMinusOne(name)) {
+                note(name, answer);
+                return;
+            }
+            long own = answer(told, house, method, arguments);
+            isBrokenOther &= !name.equals("give") && !name.equals("switchOn");
+            isChainOther &= !name.equals("stands") && !name.equals("useRight");
+            if (name.equals("broken") && isBrokenOther || name.equals("chain") && isChainOther) {
+                return;
+            }
+            DUE.is(told + " without what was refused", own, answer);
+        }
+
+        /** What a refusal changes all the same, as the document tells. */
+        private void note(String name, long answer) {
+            isBrokenOther |= answer != RightsHouse.BAD && (name.equals("give") || name.equals("switchOn"));
+            isChainOther |= answer != RightsHouse.BAD && name.equals("useRight");
+            if (name.equals("policy") && answer <= -10) {
+                house.cut(0);
+            }
+        }
+    }
+
+    private static void prepare(RightsHouse x, int seed) {
+        if (seed % 2 == 0) {
+            Twins.furnish(x);
+            return;
+        }
         for (int i = 0; i < 3; i++) {
             x.person();
             x.group();

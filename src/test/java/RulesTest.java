@@ -15,6 +15,10 @@ final class RulesTest {
         ways();
         unknowns();
         failures();
+        wholes();
+        latestMade();
+        askedNow();
+        deepest();
         mayAndWho();
         compares();
         decides();
@@ -507,6 +511,133 @@ final class RulesTest {
         truth("not (1 = 2 and 1 = 1)", 1);
         truth("999999999 * 999999999 * 999999999 = " + "999999999 * (999999999 * 999999999)", 1);
         truth("3 > 2 and 3 >= 3 and 2 < 3 and 3 <= 3 and 2 <> 3", 1);
+    }
+
+    /** A condition on WHOLES of a PERSON (me.a to me.h, in order). */
+    private static int ofWholes(String condition, long... wholes) {
+        RightsHouse x = Due.house(1, 0);
+        for (int f = 0; f < wholes.length; f++) {
+            x.feature(0, f, 1, 1);
+            x.item(0, f, 0, wholes[f]);
+        }
+        int answer = x.asked(Due.policy(x, 0, "yes any r any if " + condition), 0, R, 0, 0);
+        return answer == 3 ? 30 + x.made(2) : answer;
+    }
+
+    /** "WHOLES (running over)"; "/ of WHOLES is cut towards 0, % its rest"; "A division of WHOLES by 0: 5." */
+    private static void wholes() {
+        long least = Long.MIN_VALUE;
+        long most = Long.MAX_VALUE;
+        DUE.is("+ running over", ofWholes("me.a + 1 = me.b", most, least), 1);
+        DUE.is("- running over", ofWholes("me.b - 1 = me.a", most, least), 1);
+        DUE.is("* running over", ofWholes("me.a * 2 = -2", most), 1);
+        DUE.is("* running over twice", ofWholes("me.a * me.a = 1", most), 1);
+        DUE.is("- of the least", ofWholes("- me.a = me.a", least), 1);
+        DUE.is("the least / -1", ofWholes("me.a / -1 = me.a", least), 1);
+        DUE.is("the least % -1", ofWholes("me.a % -1 = 0", least), 1);
+        DUE.is("the least / the least", ofWholes("me.a / me.a = 1", least), 1);
+        DUE.is("the least / 0", ofWholes("me.a / 0 = 1", least), 35);
+        DUE.is("the least % 0", ofWholes("me.a % 0 = 1", least), 35);
+        DUE.is("0 / 0", ofWholes("0 / 0 = 1"), 35);
+        DUE.is("0 % 0", ofWholes("0 % me.a = 1", 0), 35);
+        DUE.is("towards 0 from above", ofWholes("me.a / 2 = me.b", -1, 0), 1);
+        DUE.is("the rest of that", ofWholes("me.a % 2 = me.a", -1), 1);
+        DUE.is("the next but no double of its own, =", ofWholes("me.a = me.b", most, most - 1), 0);
+        DUE.is("the next but no double of its own, <>", ofWholes("me.a <> me.b", most, most - 1), 1);
+        DUE.is("the next but no double of its own, >", ofWholes("me.a > me.b", most, most - 1), 1);
+        DUE.is("the next but no double of its own, <=", ofWholes("me.a <= me.b", most, most - 1), 0);
+        DUE.is("with a REAL both are REALS", ofWholes("me.a + 0.0 = me.b", most, most - 1), 1);
+        DUE.is("the least and the greatest", ofWholes("me.a < me.b", least, most), 1);
+        DUE.is("a place running over", ofWholes("me.a[me.a] = 0", 1L << 32), 32);
+        DUE.is("the least place", ofWholes("me.a[me.a] = 0", least), 32);
+        DUE.is("the greatest place", ofWholes("me.a[me.a] = 0", most), 32);
+        RightsHouse x = Due.house(1, 0);
+        x.feature(0, 0, 3, 20);
+        x.item(0, 0, 0, -1);
+        x.item(0, 0, 19, Integer.MIN_VALUE);
+        x.feature(0, 1, 1, 1);
+        x.item(0, 1, 0, 0xffffffffL);
+        int p = Due.policy(x, 0, "yes any r any if me.b in me.a; maybe any r any if me.a[19] in me.a and me.a in me.a");
+        DUE.is("a WHOLE beyond MARKS is none of them, the last MARK is", x.asked(p, 0, R, 0, 0), 2);
+    }
+
+    /** 28: "Of the latest ask(), asked(), askIn() that was not BAD", and nothing of those ahead of it. */
+    private static void latestMade() {
+        RightsHouse x = house();
+        int p = Due.policy(x, 1, "yes any r any must 4; maybe any r t1 must 5; no any x t1 if 1/0 = 1 must 6");
+        x.asked(p, 0, R, 1, 0);
+        DUE.is("rule", x.made(0), 1);
+        DUE.is("DUTY", x.made(1), 5);
+        DUE.is("two SPOKE", x.made(3), 2);
+        x.asked(p, 0, R, 1, 0);
+        DUE.is("two SPOKE again", x.made(3), 2);
+        DUE.is("FAIL", x.asked(p, 0, X, 1, 0), 3);
+        DUE.is("its rule", x.made(0), 2);
+        DUE.is("its DUTY", x.made(1), 6);
+        DUE.is("its FAILURE", x.made(2), 5);
+        DUE.is("none SPEAKS", x.asked(p, 0, W, 0, 0), 0);
+        DUE.is("no rule", x.made(0), NONE);
+        DUE.is("no DUTY", x.made(1), 0);
+        DUE.is("no FAILURE", x.made(2), 0);
+        DUE.is("none SPOKE", x.made(3), 0);
+        x.asked(p, 0, R, 0, 0);
+        DUE.is("one SPOKE", x.made(3), 1);
+        DUE.is("BAD", x.asked(p, 0, R, 9, 0), BAD);
+        DUE.is("which is none", x.made(1), 4);
+        DUE.is("none in force", x.ask(0, R, 0), 0);
+        DUE.is("by no rule", x.made(0), NONE);
+        DUE.is("none SPOKE", x.made(3), 0);
+    }
+
+    /** "A request NOW", "to a PERSON and an ACT NOW", "All requests NOW", whatever moment was asked for ahead of it. */
+    private static void askedNow() {
+        RightsHouse x = house();
+        Due.policy(x, 0, "yes any r any if now = 20 and age = 0");
+        Due.policy(x, 0, "maybe any o t1");
+        x.inForce(0);
+        x.session(0);
+        x.tick(20);
+        DUE.is("asked for another moment", x.asked(0, 0, R, 0, 3), 0);
+        DUE.is("ask", x.ask(0, R, 0), 1);
+        x.asked(0, 0, R, 0, 3);
+        DUE.is("askIn", x.askIn(0, R, 0), 1);
+        x.asked(0, 0, R, 0, 3);
+        DUE.is("may", x.may(0, 0, R, 2), 2);
+        x.asked(0, 0, R, 0, 3);
+        DUE.is("who", x.who(0, R, 0, 2), 2);
+        x.asked(0, 0, R, 0, 3);
+        DUE.is("decides", x.decides(0, 0), 9);
+        x.asked(0, 0, R, 0, 3);
+        DUE.is("compare", x.compare(0, 1), 24);
+        DUE.is("only the first one", x.compared(1), 9);
+        x.asked(0, 0, R, 0, 3);
+        DUE.is("the other way", x.compare(1, 0), 24);
+        DUE.is("only the second one", x.compared(0), 9);
+        DUE.is("only the first one, anew", x.compared(1), 0);
+        x.asked(0, 0, R, 0, 3);
+        DUE.is("could, for a moment of its own", x.could(R, 0, 20, 2), 2);
+        DUE.is("could, for another one", x.could(R, 0, 19, 0), NONE);
+    }
+
+    /** "whose thing lies deepest (t2 deeper than t2/, by DEPTH of its THING first; any least)", 40 deep. */
+    private static void deepest() {
+        RightsHouse x = Due.house(1, 0);
+        for (int t = 1; t < 40; t++) {
+            x.thing(t - 1, NONE);
+        }
+        String rules = "yes any r t39; no any r t39/; no any r t38/; maybe any w t38/; no any r t0/; no any r any";
+        int p = Due.policy(x, 2, rules);
+        DUE.is("the deepest alone", x.asked(p, 0, R, 39, 0), 1);
+        DUE.is("by DEPTH, then by rank", x.asked(p, 0, R, 38, 0), 0);
+        DUE.is("by rule 2", x.made(0), 2);
+        DUE.is("by DEPTH", x.asked(p, 0, R, 37, 0), 0);
+        DUE.is("by rule 4", x.made(0), 4);
+        x.move(39, 0);
+        DUE.is("moved", x.asked(p, 0, R, 39, 0), 1);
+        DUE.is("still alone", x.made(0), 0);
+        x.cutOff(39, true);
+        x.asked(Due.policy(x, 2, "no any r any; yes any r t0/"), 0, R, 39, 0);
+        DUE.is("CUT: not UNDER t0", x.made(0), 0);
     }
 
     private static void mayAndWho() {

@@ -5,6 +5,9 @@ final class TapeTest {
     public static void main(String[] args) {
         newObject();
         feedAndCut();
+        lowestBytes();
+        emptyTape();
+        takenTape();
         tick();
         DUE.end();
     }
@@ -59,6 +62,55 @@ final class TapeTest {
         DUE.is("feed(2) beyond 1200", x.feed(2, 0), RightsHouse.FULL);
         DUE.is("feed(1) to 1200", x.feed(1, 0), 1200);
         DUE.is("cut(0)", x.cut(0), 1200);
+    }
+
+    /** 2: "The n lowest bytes of w, the highest of them first, come behind THE TAPE". */
+    private static void lowestBytes() {
+        long w = 0xf1f2f3f4f5f6f7f8L;
+        for (int n = 1; n <= 8; n++) {
+            RightsHouse x = new RightsHouse();
+            int ahead = n <= 4 ? 4 - n : 8 - n;
+            if (ahead > 0) {
+                x.feed(ahead, 0);
+            }
+            DUE.is("feed(" + n + ")", x.feed(n, w), ahead + n);
+            long low = n < 4 ? w & (1L << 8 * n) - 1 : w & 0xffffffffL;
+            long high = n <= 4 ? 0 : w >>> 32 & (1L << 8 * (n - 4)) - 1;
+            long due = n <= 4 ? 3 * low % 2147483647L : (3 * high + 9 * low) % 2147483647L;
+            DUE.is("the bytes of feed(" + n + ")", x.half(0, 3), due);
+        }
+    }
+
+    /** 3: "THE TAPE keeps its first n bytes: how many go", when there is none. */
+    private static void emptyTape() {
+        RightsHouse x = new RightsHouse();
+        DUE.is("cut(0) of an empty one", x.cut(0), 0);
+        DUE.is("cut(1) of an empty one", x.cut(1), RightsHouse.BAD);
+        DUE.is("half of an empty one", x.half(5, 7), 5);
+        DUE.is("joined of an empty one", x.joined(), RightsHouse.NO);
+        DUE.is("policy of an empty one", x.policy(0), -10);
+        DUE.is("feed behind it", x.feed(1, 0), 1);
+    }
+
+    /** "A call that says that it takes THE TAPE empties it, unless it is refused." */
+    private static void takenTape() {
+        RightsHouse x = new RightsHouse();
+        Due.numbers(x, 1, 9);
+        DUE.is("half, BAD", x.half(-1, 1), RightsHouse.BAD);
+        DUE.is("leaves it", x.cut(8), 0);
+        DUE.is("joined", x.joined(), 9);
+        DUE.is("empties it", x.feed(1, 0), 1);
+        DUE.is("half, NO", x.half(0, 1), RightsHouse.NO);
+        DUE.is("joined, NO", x.joined(), RightsHouse.NO);
+        DUE.is("leave it", x.feed(3, 2), 4);
+        DUE.is("half", x.half(0, 1), 2);
+        DUE.is("empties it", x.cut(0), 0);
+        Due.text(x, "yes any r any");
+        DUE.is("policy, BAD", x.policy(4), RightsHouse.BAD);
+        DUE.is("leaves it", x.policy(0), 0);
+        DUE.is("policy empties it", x.cut(0), 0);
+        DUE.is("policy with a FAULT", Due.policy(x, 0, "yes any"), -17);
+        DUE.is("empties it, too", x.cut(0), 0);
     }
 
     private static void tick() {

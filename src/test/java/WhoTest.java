@@ -11,9 +11,12 @@ final class WhoTest {
         badRows();
         rings();
         fullRows();
+        longestWay();
+        manyPersons();
         belongsAsWalked();
         features();
         manyFeatures();
+        newFeatures();
         sorts();
         copies();
         DUE.end();
@@ -118,6 +121,46 @@ final class WhoTest {
         DUE.is("BAD ahead of NO, FULL", x.put(101, 0, 9, 9), BAD);
     }
 
+    /** "when a row of ROWS .. leads from the PERSON to the GROUP", through all 16 of them; "a ring" of all 16. */
+    private static void longestWay() {
+        RightsHouse x = Due.house(1, 16);
+        for (int g = 14; g >= 0; g--) {
+            x.put(100 + g, g + 1, 14 - g, 100 + g);
+        }
+        x.put(0, 0, 0, 1000);
+        DUE.is("all the way", x.belongs(0, 15, 50, 0), 1);
+        DUE.is("at the first moment of all", x.belongs(0, 15, 14, 0), 1);
+        DUE.is("ahead of it", x.belongs(0, 15, 13, 0), 0);
+        DUE.is("at the last moment of all", x.belongs(0, 15, 99, 0), 1);
+        DUE.is("behind it", x.belongs(0, 15, 100, 0), 0);
+        DUE.is("still by the later ones", x.belongs(0, 0, 100, 0), 1);
+        for (int g = 0; g < 15; g++) {
+            DUE.is("a ring from 15 to " + g, x.put(115, g, 0, 9), NO);
+            DUE.is("a ring of " + (g + 1) + " alone", x.put(101 + g, g + 1, 0, 9), NO);
+        }
+        x.tick(3);
+        DUE.is("one taken back in the middle", x.back(7), 1);
+        DUE.is("not all the way", x.belongs(0, 15, 50, 3), 0);
+        DUE.is("as KNOWN until then", x.belongs(0, 15, 50, 2), 1);
+        DUE.is("no ring across it", x.put(115, 0, 0, 9), 16);
+        DUE.is("but on its side", x.put(115, 8, 0, 9), NO);
+    }
+
+    /** Persons are no groups, whatever their numbers. */
+    private static void manyPersons() {
+        RightsHouse x = Due.house(20, 16);
+        for (int p = 0; p < 20; p++) {
+            DUE.is("put " + p, x.put(p, p % 16, 0, 9), p);
+        }
+        x.put(103, 12, 0, 9);
+        for (int p = 0; p < 20; p++) {
+            for (int g = 0; g < 16; g++) {
+                boolean is = g == p % 16 || p % 16 == 3 && g == 12;
+                DUE.is("belongs " + p + " " + g, x.belongs(p, g, 0, 0), is ? 1 : 0);
+            }
+        }
+    }
+
     /** The answers of belongs() against a walk over the rows that were put. */
     private static void belongsAsWalked() {
         Random random = new Random(5);
@@ -212,6 +255,35 @@ final class WhoTest {
             DUE.is("last item of " + bearers[i / 8] + ", " + i % 8, x.itemOf(bearers[i / 8], i % 8, 1, 19), i);
         }
         DUE.is("me and it", x.asked(Due.policy(x, 0, "yes any r any if me.h[19] = 31 and it.a[19] = 56"), 19, 0, 39, 0), 1);
+    }
+
+    /** "hold NOTHING (at first), or a row of 0 to 20 ITEMS .. all 0 at first". */
+    private static void newFeatures() {
+        RightsHouse x = Due.house(1, 0);
+        for (int f = 0; f < 8; f++) {
+            DUE.is("NOTHING at first, " + f, x.itemOf(0, f, 1, 0), -11);
+            DUE.is("NOTHING at first of a THING, " + f, x.itemOf(100, f, 3, 0), -11);
+        }
+        for (int sort = 1; sort <= 3; sort++) {
+            DUE.is("no ITEMS of SORT " + sort, x.feature(0, sort, sort, 0), 0);
+            DUE.is("no first one", x.itemOf(0, sort, sort, 0), -12);
+            DUE.is("none to change", x.item(0, sort, 0, 5), -12);
+            DUE.is("none to copy", x.copy(0, sort, 0, 0, sort, 0, 0), 0);
+            DUE.is("one ITEM", x.feature(0, sort, sort, 1), 1);
+            DUE.is("the first one", x.item(0, sort, 0, 5), 1);
+            DUE.is("no second one", x.item(0, sort, 1, 5), -12);
+            DUE.is("20 ITEMS", x.feature(0, sort, sort, 20), 20);
+            for (int i = 0; i < 20; i++) {
+                DUE.is("0 at first, " + i, x.itemOf(0, sort, sort, i), 0);
+                x.item(0, sort, i, 7 + i);
+            }
+            DUE.is("no ITEM 20", x.itemOf(0, sort, sort, 20), -12);
+            DUE.is("the same once more", x.feature(0, sort, sort, 20), 20);
+            DUE.is("0 again", x.itemOf(0, sort, sort, 19), 0);
+            DUE.is("21 ITEMS", x.feature(0, sort, sort, 21), BAD);
+            DUE.is("NOTHING once more", x.feature(0, sort, 0, Integer.MIN_VALUE), 0);
+            DUE.is("NOTHING is there", x.item(0, sort, 0, 5), -11);
+        }
     }
 
     private static void sorts() {

@@ -13,6 +13,8 @@ final class WorksTest {
         next();
         performs();
         doneTies();
+        tiesAheadOfTries();
+        worksApart();
         needed();
         byCounting();
         DUE.end();
@@ -203,6 +205,67 @@ final class WorksTest {
         y.tie(0, 1, 0, 1);
         DUE.is("all DONE, a TIE does not hold", y.fill(0, 9), 0);
         DUE.is("nobody to try", y.tries(), 0);
+    }
+
+    /** 48: "0 (also, without TRIES, if the PERSON does not BELONG to its GROUP, or a TIE does not hold)". */
+    private static void tiesAheadOfTries() {
+        RightsHouse x = house(3, 4);
+        x.perform(0, 0, 0, 99);
+        x.tie(0, 0, 0, 1);
+        x.tie(0, 2, 2, 0);
+        DUE.is("a FILLING", x.fill(0, 99), 1);
+        DUE.is("against UNLIKE", x.next(0, 1, 0, 99), 0);
+        DUE.is("without TRIES", x.tries(), 0);
+        DUE.is("it holds", x.next(0, 1, 1, 99), 1);
+        DUE.is("with TRIES", x.tries() > 0 ? 1 : 0, 1);
+        DUE.is("done", x.perform(0, 2, 0, 99), 1);
+        DUE.is("against MOST", x.next(0, 3, 0, 99), 0);
+        DUE.is("without TRIES, too", x.tries(), 0);
+        DUE.is("perform likewise", x.perform(0, 3, 0, 99), 0);
+        DUE.is("without TRIES again", x.tries(), 0);
+        DUE.is("not done", x.next(0, 3, 1, 99), 1);
+        x.tick(50);
+        DUE.is("nobody BELONGS", x.next(0, 3, 1, 99), 0);
+        DUE.is("without TRIES once more", x.tries(), 0);
+    }
+
+    /** "WORKS (4) of STEPS (8 each)": each has steps, ties, what is DONE and what was filled of its own. */
+    private static void worksApart() {
+        RightsHouse x = house(4, 0);
+        for (int w = 1; w < 4; w++) {
+            x.work();
+        }
+        for (int w = 0; w < 4; w++) {
+            for (int i = 0; i <= w; i++) {
+                x.step(w, 0);
+            }
+            DUE.is("nothing filled of " + w, x.filled(w, w), NONE);
+        }
+        x.tie(3, 2, 1, 0);
+        x.tie(1, 1, 0, 1);
+        DUE.is("done in 2", x.perform(2, 1, 3, 9), 1);
+        DUE.is("its TRIES", x.tries(), 2);
+        DUE.is("fill 3", x.fill(3, 99), 1);
+        for (int i = 0; i < 4; i++) {
+            DUE.is("filled 3, " + i, x.filled(3, i), i);
+            DUE.is("next 3, " + i, x.next(3, i, 0, 99), 1);
+        }
+        DUE.is("fill 0", x.fill(0, 99), 1);
+        DUE.is("TRIES of 0", x.tries(), 1);
+        DUE.is("fill 1", x.fill(1, 99), 1);
+        DUE.is("TRIES of 1", x.tries(), 2);
+        DUE.is("fill 2", x.fill(2, 99), 1);
+        DUE.is("filled 2, done", x.filled(2, 1), 3);
+        DUE.is("filled 2, not done", x.filled(2, 2), 0);
+        DUE.is("filled 3, as it was", x.filled(3, 3), 3);
+        DUE.is("needed in 2", x.needed(2, 3, 99), 1);
+        DUE.is("needed in 3", x.needed(3, 3, 999), 1);
+        DUE.is("needed in 1", x.needed(1, 3, 99), 0);
+        DUE.is("done in 3", x.perform(3, 3, 0, 99), 1);
+        DUE.is("not in 1", x.next(1, 1, 1, 99), 1);
+        DUE.is("nor in 0", x.next(0, 0, 1, 99), 1);
+        DUE.is("fill 3 anew", x.fill(3, 99), 1);
+        DUE.is("1 2 3 0", x.filled(3, 0) * 1000 + x.filled(3, 1) * 100 + x.filled(3, 2) * 10 + x.filled(3, 3), 1230);
     }
 
     private static void needed() {
