@@ -17,6 +17,9 @@ final class FlowsTest {
         loops();
         nestedLoops();
         said();
+        mostStatements();
+        mostSaid();
+        numbersLikeRefusals();
         DUE.end();
     }
 
@@ -325,6 +328,78 @@ final class FlowsTest {
         y.statement(SAY, 0, 13, 0);
         DUE.is("a WHILE at the end of another one", y.flow(7), 1);
         DUE.is("said nothing", y.said(13, -1), 0);
+    }
+
+    /** 67: "A run of so many STATEMENTS at most (0 .. 2000 ..): 1: it came to the end; 0: one more would be due." */
+    private static void mostStatements() {
+        RightsHouse x = new RightsHouse();
+        x.given(0, 666);
+        x.given(9, -1);
+        x.statement(WHILE, 0, 2, 0);
+        x.statement(SET, 0, 0, 9);
+        x.statement(KEEP, 1, 1, 0);
+        // 666 times three, WHILE once more, and one
+        x.statement(KEEP, 2, 1, 0);
+        DUE.is("2000", x.flow(2000), 1);
+        DUE.is("to the end", x.variable(2), 1);
+        DUE.is("1999", x.flow(1999), 0);
+        DUE.is("not to the end", x.variable(2), 0);
+        x.statement(KEEP, 3, 1, 0);
+        DUE.is("2001", x.flow(2000), 0);
+        DUE.is("all but the last one", x.variable(2) - x.variable(3), 1);
+        x.erase();
+        DUE.is("none, of none", x.flow(0), 1);
+        x.statement(KEEP, 3, 1, 0);
+        DUE.is("none, of one", x.flow(0), 0);
+        DUE.is("one, of one", x.flow(1), 1);
+    }
+
+    /** 68: "of each CHANNEL the first 200 are kept". */
+    private static void mostSaid() {
+        for (int times = 199; times <= 201; times++) {
+            RightsHouse x = new RightsHouse();
+            x.given(0, times);
+            x.given(9, -1);
+            x.statement(WHILE, 0, 4, 0);
+            x.statement(SAY, 0, 10, 0);
+            x.statement(SAY, 0, 13, 0);
+            x.statement(SAY, 0, 13, 0);
+            x.statement(SET, 0, 0, 9);
+            DUE.is(times + " times", x.flow(2000), 1);
+            int kept = Math.min(times, 200);
+            DUE.is("kept of " + times, x.said(10, -1), kept);
+            DUE.is("the first one of " + times, x.said(10, 0), times);
+            DUE.is("the last one of " + times, x.said(10, kept - 1), times - kept + 1);
+            DUE.is("none behind it", x.said(10, kept), BAD);
+            DUE.is("kept of twice " + times, x.said(13, -1), 200);
+            DUE.is("the last one of twice " + times, x.said(13, 199), times - 99);
+            DUE.is("none behind that", x.said(13, 200), BAD);
+            DUE.is("nothing on another one", x.said(12, -1), 0);
+        }
+    }
+
+    /** 66, 68, 69: "BAD (which it may be)", and what the others are. */
+    private static void numbersLikeRefusals() {
+        RightsHouse x = new RightsHouse();
+        x.statement(SAY, 0, 10, 0);
+        x.given(0, -4);
+        for (int v = -4; v <= -1; v++) {
+            DUE.is("flow", x.flow(1), 1);
+            DUE.is("said " + v, x.said(10, 0), v);
+            DUE.is("variable " + v, x.variable(0), v);
+            DUE.is("given " + v, x.given(0, v + 1), v);
+        }
+        x.given(0, Integer.MIN_VALUE);
+        DUE.is("the least", x.given(0, Integer.MAX_VALUE), Integer.MIN_VALUE);
+        DUE.is("the greatest", x.given(0, 0), Integer.MAX_VALUE);
+        x.statement(KEEP, 1, Integer.MIN_VALUE, 0);
+        x.statement(KEEP, 2, -1, 0);
+        x.statement(SET, 3, 1, 2);
+        x.statement(SET, 4, 1, 1);
+        x.flow(9);
+        DUE.is("KEEP the least", x.variable(1), Integer.MIN_VALUE);
+        DUE.is("SET running over below", x.variable(3), Integer.MAX_VALUE);
+        DUE.is("SET running over to 0", x.variable(4), 0);
     }
 
     private static void said() {

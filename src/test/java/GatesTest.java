@@ -280,6 +280,12 @@ final class GatesTest {
         entered("a METHOD that does not stand", x, 2, 0, 0, 3, NONE, NONE, 0, 0);
         x.method(0);
         DUE.is("now it stands", x.enter(0, 9), 0);
+        // The 21st call, of a METHOD that does not stand: as README reads it, that is asked for first.
+        RightsHouse deep = house(1);
+        deep.op(0, TRY, 0, 0);
+        deep.op(0, CALL, 1, 0);
+        DUE.is("too deep and not there", deep.enter(0, 99), 4);
+        entered("too deep and not there", deep, 21, 0, 0, 22, 0, 0, 0, 1);
         for (int m = 2; m < 12; m++) {
             for (int kind : new int[] {CALL, MARK, TRY}) {
                 RightsHouse y = house(1, 1);

@@ -10,6 +10,7 @@ final class GuardTest {
 
     public static void main(String[] args) {
         sums();
+        sumsLikeRefusals();
         shares();
         sharesOfAll();
         full();
@@ -52,6 +53,25 @@ final class GuardTest {
         RightsHouse y = Due.house(20, 0);
         DUE.is("all twenty", y.sum(0, (1 << 20) - 1), 0);
         DUE.is("all but one", y.sum(0, (1 << 19) - 1), NO);
+    }
+
+    /** 70, 71: "BAD (which it may be)", and what the others are; "(bits; running over)". */
+    private static void sumsLikeRefusals() {
+        RightsHouse x = Due.house(2, 0);
+        x.guarded(1, 10);
+        for (long v = -4; v <= -1; v++) {
+            x.guarded(0, v - 10);
+            DUE.is("sum " + v, x.sum(0, 3), v);
+            DUE.is("its number", x.guarded(0, v), v - 10);
+            DUE.is("guarded " + v, x.guarded(0, v), v);
+        }
+        x.guarded(0, Long.MIN_VALUE);
+        x.guarded(1, Long.MIN_VALUE);
+        DUE.is("running over to 0", x.sum(0, 3), 0);
+        x.guarded(1, -1);
+        DUE.is("running over below", x.sum(0, 3), Long.MAX_VALUE);
+        DUE.is("the least", x.guarded(0, 0), Long.MIN_VALUE);
+        DUE.is("told once", x.knows(0, 0), 1);
     }
 
     private static void shares() {

@@ -10,7 +10,7 @@ final class LogTest {
         notLogged();
         sums();
         forged();
-        full();
+        forgedLikeRefusals();
         could();
         DUE.end();
     }
@@ -174,23 +174,21 @@ final class LogTest {
         DUE.is("forge row -1", x.forge(-1, 0, 0), BAD);
     }
 
-    private static void full() {
-        RightsHouse x = house();
-        for (int i = 0; i < 300; i++) {
-            x.ask(i % 3, i % 6, i % 2);
+    /** 81, 82: "BAD (which it may be)", and what the others are. */
+    private static void forgedLikeRefusals() {
+        RightsHouse x = logged();
+        for (int what = 0; what < 6; what++) {
+            int was = x.logged(0, what);
+            for (int v = -4; v <= -1; v++) {
+                DUE.is("forge " + what, x.forge(0, what, v), v == -4 ? was : v - 1);
+                DUE.is("forged " + v, x.logged(0, what), v);
+            }
+            DUE.is("the least", x.forge(0, what, Integer.MIN_VALUE), -1);
+            DUE.is("the greatest", x.forge(0, what, Integer.MAX_VALUE), Integer.MIN_VALUE);
+            DUE.is("as it was", x.forge(0, what, was), Integer.MAX_VALUE);
         }
-        int sum = x.logged(299, 6);
-        DUE.is("300", x.logged(-1, 0), 300);
-        Due.policy(x, 0, "yes any r any must 2");
-        DUE.is("inForce goes on", x.inForce(0), 1);
-        DUE.is("ask goes on", x.ask(0, 0, 0), 1);
-        DUE.is("and is made", x.made(1), 2);
-        DUE.is("give goes on", x.give(0, 0, 0, 9), 0);
-        DUE.is("lend goes on", x.lend(0, 1, 0, 1, 9, 0, -1), 0);
-        DUE.is("no more", x.logged(-1, 0), 300);
-        DUE.is("row 300", x.logged(300, 0), BAD);
-        DUE.is("the last stays", x.logged(299, 6), sum);
-        DUE.is("sealed", x.sealed(300, sum), 1);
+        DUE.is("right again", x.wrong(), NONE);
+        DUE.is("sealed again", x.sealed(7, x.logged(6, 6)), 1);
     }
 
     private static void could() {

@@ -30,6 +30,7 @@ final class RealsTest {
         edges();
         randoms();
         wholes();
+        ties();
         byConditions();
         DUE.end();
     }
@@ -113,6 +114,35 @@ final class RealsTest {
             }
         }
         DUE.is("(double) 0", (Long) ofWhole.invoke(null, 0L), 0L);
+    }
+
+    /** Products of which all bits but a last one lie in the middle between two doubles: that one decides. */
+    private static void ties() throws Exception {
+        Random random = new Random(19);
+        long one = 0x3ff0000000000000L;
+        for (int bit = 0; bit < 52; bit++) {
+            for (int n = 0; n < 40; n++) {
+                long a = 1L << 52 | random.nextLong() >>> 12 | 1;
+                long inverse = a;
+                for (int i = 0; i < 6; i++) {
+                    inverse *= 2 - a * inverse;
+                }
+                long b = inverse * ((1L << 52) + (1L << bit)) & (1L << 53) - 1;
+                if (b >>> 52 == 1) {
+                    long x = one | a & (1L << 52) - 1;
+                    long y = one | b & (1L << 52) - 1;
+                    pair(x, y);
+                    pair(x, y ^ Long.MIN_VALUE);
+                }
+            }
+        }
+        for (long v = -2049; v <= 2049; v++) {
+            for (int shift = 54; shift < 63; shift++) {
+                long whole = (1L << shift) + v;
+                DUE.is("(double) " + whole, (Long) ofWhole.invoke(null, whole), Double.doubleToLongBits((double) whole));
+                DUE.is("(double) " + -whole, (Long) ofWhole.invoke(null, -whole), Double.doubleToLongBits((double) -whole));
+            }
+        }
     }
 
     /** As a rule's condition: 1 yes, 0 none. */

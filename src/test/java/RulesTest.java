@@ -22,7 +22,6 @@ final class RulesTest {
         mayAndWho();
         compares();
         decides();
-        sweepsTogether();
         DUE.end();
     }
 
@@ -714,20 +713,5 @@ final class RulesTest {
         DUE.is("rule 3", x.decides(p, 3), BAD);
         DUE.is("rule -1", x.decides(p, -1), BAD);
         DUE.is("no policy", x.decides(1, 0), BAD);
-    }
-
-    private static void sweepsTogether() {
-        RightsHouse x = house();
-        int p = Due.policy(x, 0, "yes p1 r any");
-        for (int i = 0; i < 10; i++) {
-            DUE.is("compare " + i, x.compare(p, p), 0);
-            DUE.is("decides " + i, x.decides(p, 0), 3);
-            x.compare(p, 7);
-        }
-        DUE.is("compare 20", x.compare(p, p), FULL);
-        DUE.is("decides 20", x.decides(p, 0), FULL);
-        DUE.is("compare BAD ahead of FULL", x.compare(p, 5), BAD);
-        DUE.is("decides BAD ahead of FULL", x.decides(p, 5), BAD);
-        DUE.is("the latest compared", x.compared(5), 54);
     }
 }

@@ -268,16 +268,16 @@ final class TextsTest {
         String[] parts = {"(1)=1and ", "(0+1)=1and ", "(((1)))=1and ", "1=1and ", "(1=1)and ", "not 1=2and "};
         for (String part : parts) {
             String many = part.repeat(1100 / part.length());
-            DUE.is(part, answer(RULE + " if " + many + "2-1=1"), 1);
-            DUE.is(part + "false", answer(RULE + " if " + many + "2-1=2"), 0);
+            DUE.is(part, answer(RULE + " if " + many + "1+2*(3-4*(5-2))=-17"), 1);
+            DUE.is(part + "false", answer(RULE + " if " + many + "1+2*(3-4*(5-2))=-16"), 0);
         }
         String[] unknown = {"1+me.e=1or ", "1+2*me.e=1or ", "1 in me.e or ", "me.e=1or ", "1+size me.e=1or "};
         for (String part : unknown) {
             String many = part.repeat(1100 / part.length());
-            DUE.is(part, answer("maybe any r any if " + many + "3-1=2"), 2);
-            DUE.is(part + "false", answer("maybe any r any if " + many + "3-1=1"), 2);
-            DUE.is(part + "yes", answer(RULE + " if " + many + "3-1=2"), 1);
-            DUE.is(part + "no", answer(RULE + " if " + many + "3-1=1"), 0);
+            DUE.is(part, answer("maybe any r any if " + many + "1+2*(3-4*(5-2))=-17"), 2);
+            DUE.is(part + "false", answer("maybe any r any if " + many + "1+2*(3-4*(5-2))=-16"), 2);
+            DUE.is(part + "yes", answer(RULE + " if " + many + "1+2*(3-4*(5-2))=-17"), 1);
+            DUE.is(part + "no", answer(RULE + " if " + many + "1+2*(3-4*(5-2))=-16"), 0);
         }
         RightsHouse x = Due.house(1, 0);
         int fails = Due.policy(x, 0, RULE + " if 1+(2*(3-1/0))=1");

@@ -17,6 +17,7 @@ final class WhoTest {
         features();
         manyFeatures();
         newFeatures();
+        itemsLikeRefusals();
         sorts();
         copies();
         DUE.end();
@@ -154,6 +155,9 @@ final class WhoTest {
         }
         x.put(103, 12, 0, 9);
         for (int p = 0; p < 20; p++) {
+            DUE.is("no ring of " + p, x.put(p, (p + 12) % 16, 50, 60), 21 + p);
+        }
+        for (int p = 0; p < 20; p++) {
             for (int g = 0; g < 16; g++) {
                 boolean is = g == p % 16 || p % 16 == 3 && g == 12;
                 DUE.is("belongs " + p + " " + g, x.belongs(p, g, 0, 0), is ? 1 : 0);
@@ -283,6 +287,22 @@ final class WhoTest {
             DUE.is("21 ITEMS", x.feature(0, sort, sort, 21), BAD);
             DUE.is("NOTHING once more", x.feature(0, sort, 0, Integer.MIN_VALUE), 0);
             DUE.is("NOTHING is there", x.item(0, sort, 0, 5), -11);
+        }
+    }
+
+    /** 13: "BAD (which it may be)", and what the others are. */
+    private static void itemsLikeRefusals() {
+        RightsHouse x = Due.house(1, 0);
+        x.feature(0, 0, 1, 1);
+        x.feature(0, 1, 2, 1);
+        x.feature(0, 2, 3, 1);
+        for (int v = -15; v <= 0; v++) {
+            DUE.is("item " + v, x.item(0, 0, 0, v), 1);
+            DUE.is("itemOf " + v, x.itemOf(0, 0, 1, 0), v);
+            x.item(0, 2, 0, v);
+            DUE.is("a MARK, " + v, x.itemOf(0, 2, 3, 0), v);
+            x.item(0, 1, 0, v);
+            DUE.is("no number, " + v, x.itemOf(0, 1, 2, 0), v == 0 ? 0 : 0x7ff8000000000000L);
         }
     }
 

@@ -15,6 +15,7 @@ final class WorksTest {
         doneTies();
         tiesAheadOfTries();
         worksApart();
+        mostTries();
         needed();
         byCounting();
         DUE.end();
@@ -266,6 +267,35 @@ final class WorksTest {
         DUE.is("nor in 0", x.next(0, 0, 1, 99), 1);
         DUE.is("fill 3 anew", x.fill(3, 99), 1);
         DUE.is("1 2 3 0", x.filled(3, 0) * 1000 + x.filled(3, 1) * 100 + x.filled(3, 2) * 10 + x.filled(3, 3), 1230);
+    }
+
+    /** 46: "2: it would be more TRIES than told (1 .. 20000)". */
+    private static void mostTries() {
+        RightsHouse x = house(20, 8);
+        x.tie(0, 0, 6, 7);
+        x.tie(0, 1, 6, 7);
+        DUE.is("20000 and more", x.fill(0, 20000), 2);
+        DUE.is("all that were told", x.tries(), 20000);
+        DUE.is("nothing is kept", x.filled(0, 0), NONE);
+        DUE.is("next", x.next(0, 7, 19, 20000), 2);
+        DUE.is("all of next", x.tries(), 20000);
+        DUE.is("perform", x.perform(0, 7, 19, 19999), 2);
+        DUE.is("all of perform", x.tries(), 19999);
+        DUE.is("needed", x.needed(0, 0, 1), 2);
+        DUE.is("all of needed", x.tries(), 1);
+        DUE.is("not done", x.next(0, 7, 19, 1), 2);
+        // Three steps left: 20 and 20 times 20 and 20 times 20 times 20 that do not hold.
+        RightsHouse y = house(20, 3);
+        y.tie(0, 0, 1, 2);
+        y.tie(0, 1, 1, 2);
+        DUE.is("one less", y.fill(0, 8419), 2);
+        DUE.is("just so many", y.fill(0, 8420), 0);
+        DUE.is("all of them", y.tries(), 8420);
+        RightsHouse z = house(1, 1);
+        DUE.is("the least number of TRIES", z.fill(0, 1), 1);
+        DUE.is("one", z.tries(), 1);
+        DUE.is("none was needed", z.next(0, 0, 0, 1), 1);
+        DUE.is("none", z.tries(), 0);
     }
 
     private static void needed() {
