@@ -344,13 +344,16 @@ final class LendsTest {
             {8, 3, 8}, {8, 4, 4}, {8, 6, 8}, {8, 9, 8}, {8, 10, 8}, {9, 1, 8}, {9, 2, 8}, {9, 4, 8}, {9, 7, 8}, {9, 10, 4},
             {9, 11, 8}, {10, 0, 1}, {10, 1, 4}, {10, 5, 1}, {10, 6, 4}, {11, 6, 1}, {11, 8, 1}, {11, 9, 1}};
         RightsHouse x = new RightsHouse();
+        RightsHouse y = new RightsHouse();
         for (int[] key : keys) {
             x.key(key[0], key[1], key[2]);
+            y.key(key[0], key[1], key[2]);
         }
         DUE.is("all but those that were there", x.gain(-1, 0), 12 * 12 * 4 - keys.length);
         int bits = 0;
-        for (int i = 0; i < 528; i++) {
+        for (int i = 0; i < 264; i++) {
             bits += Integer.bitCount(x.gain(i, 2));
+            bits += Integer.bitCount(y.gain(264 + i, 2));
         }
         DUE.is("one bit each", bits, 528);
         DUE.is("no GAIN 528", x.gain(528, 0), BAD);

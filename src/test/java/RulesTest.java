@@ -8,6 +8,7 @@ final class RulesTest {
         faults();
         deepFaults();
         manyRules();
+        longTexts();
         greatNumbers();
         policies();
         inForce();
@@ -248,22 +249,24 @@ final class RulesTest {
         DUE.is("thirty and ;", Due.policy(x, 0, thirty + "; "), -10 - thirty.length() - 2);
         DUE.is("31 rules, no word", Due.policy(x, 0, thirty + "; 5"), -10 - thirty.length() - 2);
         DUE.is("a fault changes nothing", x.rules(1), BAD);
+    }
+
+    private static void longTexts() {
+        RightsHouse x = house();
         String longest = "yes any r any if 1" + many("+1", 588) + "=589 ";
         DUE.is("its length", longest.length(), 1199);
-        DUE.is("a text of 1199 bytes", Due.policy(x, 0, longest), 1);
-        DUE.is("its answer", x.asked(1, 0, R, 0, 0), 1);
+        DUE.is("a text of 1199 bytes", Due.policy(x, 0, longest), 0);
+        DUE.is("its answer", x.asked(0, 0, R, 0, 0), 1);
         Due.text(x, longest.trim() + "1 ");
-        DUE.is("a fault at the 1199th byte's number", x.cut(1200), 0);
-        DUE.is("a text of 1200 bytes", x.policy(0), 2);
-        DUE.is("its answer is no", x.asked(2, 0, R, 0, 0), 0);
-        for (int i = 0; i < 150; i++) {
-            x.feed(8, 0x2828282828282828L);
-        }
-        DUE.is("1200 signs", x.policy(0), -10);
+        DUE.is("its number's last figure another one", x.cut(1200), 0);
+        DUE.is("a text of 1200 bytes", x.policy(0), 1);
+        DUE.is("its answer is no", x.asked(1, 0, R, 0, 0), 0);
+        RightsHouse y = house();
+        DUE.is("1200 signs", Due.policy(y, 0, many("(", 1200)), -10);
         String signs = "yes any r any if 1=1" + many(";", 1180);
-        DUE.is("1180 signs", Due.policy(x, 0, signs), -10 - 21);
+        DUE.is("1180 signs", Due.policy(y, 0, signs), -10 - 21);
         String ors = "yes any r any if 1=2" + many("or 1=2", 190) + " or 1=1";
-        DUE.is("or, many times", x.asked(Due.policy(x, 0, ors), 0, R, 0, 0), 1);
+        DUE.is("or, many times", y.asked(Due.policy(y, 0, ors), 0, R, 0, 0), 1);
     }
 
     private static void greatNumbers() {
@@ -613,6 +616,7 @@ final class RulesTest {
         DUE.is("the other way", x.compare(1, 0), 24);
         DUE.is("only the second one", x.compared(0), 9);
         DUE.is("only the first one, anew", x.compared(1), 0);
+        DUE.is("the requests, anew", x.compared(5), 3 * 6 * 3);
         x.asked(0, 0, R, 0, 3);
         DUE.is("could, for a moment of its own", x.could(R, 0, 20, 2), 2);
         DUE.is("could, for another one", x.could(R, 0, 19, 0), NONE);

@@ -118,13 +118,9 @@ final class TapeTest {
         DUE.is("tick(-1)", x.tick(-1), RightsHouse.BAD);
         DUE.is("tick(1000001)", x.tick(1000001), RightsHouse.BAD);
         DUE.is("tick(1000000)", x.tick(1000000), 1000000);
-        for (int i = 2; i <= 999; i++) {
-            x.tick(1000000);
-        }
-        DUE.is("tick(999999)", x.tick(999999), 999999999);
-        DUE.is("tick(2)", x.tick(2), RightsHouse.NO);
-        DUE.is("tick(1)", x.tick(1), 1000000000);
-        DUE.is("tick(1) beyond", x.tick(1), RightsHouse.NO);
-        DUE.is("tick(0)", x.tick(0), 1000000000);
+        DUE.is("tick(0)", x.tick(0), 1000000);
+        DUE.is("tick(1)", x.tick(1), 1000001);
+        DUE.is("what is BAD changes nothing", x.tick(1000001), RightsHouse.BAD);
+        DUE.is("tick(1000000) again", x.tick(1000000), 2000001);
     }
 }

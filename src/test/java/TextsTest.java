@@ -256,7 +256,7 @@ final class TextsTest {
         }
         RightsHouse y = Due.house(1, 0);
         for (int p = 0; p < 8; p++) {
-            Due.policy(y, 0, RULE + " if 1" + "+1".repeat(500) + "=" + (501 + p % 2));
+            Due.policy(y, 0, RULE + " if 1" + "+1".repeat(200) + "=" + (201 + p % 2));
         }
         for (int p = 0; p < 8; p++) {
             DUE.is("long policy " + p, y.asked(p, 0, R, 0, 0), 1 - p % 2);

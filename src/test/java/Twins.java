@@ -124,12 +124,20 @@ final class Twins {
         same("wrong()", x -> x.wrong());
         for (int i = 0; i < 8; i++) {
             int what = i;
-            same("made(" + i + ")", x -> x.made(what));
-            same("compared(" + i + ")", x -> x.compared(what));
             same("entered(" + i + ")", x -> x.entered(what));
+            same("lendOf(0, " + i + ")", x -> x.lendOf(0, what));
+        }
+        for (int i = 0; i < 6; i++) {
+            int what = i;
+            same("compared(" + i + ")", x -> x.compared(what));
+        }
+        for (int i = 0; i < 4; i++) {
+            int what = i;
+            same("made(" + i + ")", x -> x.made(what));
             same("rules(" + i + ")", x -> x.rules(what));
             same("logged(" + (i - 1) + ", 6)", x -> x.logged(what - 1, 6));
             same("chain(" + (i - 1) + ")", x -> x.chain(what - 1));
+            same("gain(" + (i - 1) + ", 0)", x -> x.gain(what - 1, 0));
         }
     }
 
@@ -138,9 +146,17 @@ final class Twins {
             int row = i / 6;
             int what = i % 6;
             same("rowOf(" + row + ", " + what + ")", x -> x.rowOf(row, what));
-            same("thingOf(" + row + ", " + what + ")", x -> x.thingOf(row, what));
-            same("itemOf(0, 0, " + row + ", " + what + ")", x -> x.itemOf(0, 0, row, what));
-            same("itemOf(101, 0, " + row + ", " + what + ")", x -> x.itemOf(101, 0, row, what));
+        }
+        for (int i = 0; i < 20; i++) {
+            int thing = i / 5;
+            int what = i % 5;
+            same("thingOf(" + thing + ", " + what + ")", x -> x.thingOf(thing, what));
+        }
+        for (int i = 0; i < 4; i++) {
+            int place = i;
+            same("itemOf(0, 0, 1, " + i + ")", x -> x.itemOf(0, 0, 1, place));
+            same("itemOf(101, 0, 1, " + i + ")", x -> x.itemOf(101, 0, 1, place));
+            same("itemOf(0, 1, 1, " + i + ")", x -> x.itemOf(0, 1, 1, place));
         }
         for (int i = 0; i < 36; i++) {
             int act = i / 6;
@@ -151,27 +167,35 @@ final class Twins {
 
     private void rights() {
         for (int i = 0; i < 8; i++) {
-            int what = i;
-            same("lendOf(0, " + i + ")", x -> x.lendOf(0, what));
-            same("filled(0, " + i + ")", x -> x.filled(0, what));
-            same("gain(" + (i - 1) + ", 0)", x -> x.gain(what - 1, 0));
-            same("knows(" + i / 2 + ", " + i % 2 + ")", x -> x.knows(what / 2, what % 2));
-            same("switchOff(" + i / 4 + ", " + i % 4 + ")", x -> x.switchOff(what / 4, what % 4));
+            int n = i;
+            same("knows(" + i / 2 + ", " + i % 2 + ")", x -> x.knows(n / 2, n % 2));
         }
+        for (int i = 0; i < 6; i++) {
+            int n = i;
+            same("switchOff(" + i / 3 + ", " + i % 3 + ")", x -> x.switchOff(n / 3, n % 3));
+        }
+        same("filled(0, 0)", x -> x.filled(0, 0));
+        same("filled(0, 1)", x -> x.filled(0, 1));
         same("breach(0)", x -> x.breach(0));
     }
 
     private void flowsAndGates() {
         same("tight()", x -> x.tight());
         same("lowered()", x -> x.lowered());
-        for (int i = 0; i < 14; i++) {
+        same("said(10, 0)", x -> x.said(10, 0));
+        for (int i = 0; i < 10; i++) {
             int v = i;
-            same("said(" + i + ", -1)", x -> x.said(v, -1));
             same("variable(" + i + ")", x -> x.variable(v));
             same("given(" + i + ", 0)", x -> x.given(v, 0));
+        }
+        for (int i = 0; i < 14; i++) {
+            int v = i;
             same("label(" + i + ", 0)", x -> x.label(v, 0));
         }
-        same("said(10, 0)", x -> x.said(10, 0));
+        for (int i = 10; i < 14; i++) {
+            int channel = i;
+            same("said(" + i + ", -1)", x -> x.said(channel, -1));
+        }
     }
 
     private void nextOnes() {

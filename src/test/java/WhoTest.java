@@ -182,23 +182,26 @@ final class WhoTest {
                     x.back(random.nextInt(rows));
                 }
             }
+            int[][] put = new int[rows][6];
+            for (int i = 0; i < rows * 6; i++) {
+                put[i / 6][i % 6] = x.rowOf(i / 6, i % 6);
+            }
             for (int i = 0; i < 60; i++) {
                 int p = random.nextInt(4);
                 int g = random.nextInt(6);
                 int t = random.nextInt(40);
                 int known = random.nextInt(50);
                 DUE.is("belongs(" + p + ", " + g + ", " + t + ", " + known + ") in run " + run,
-                        x.belongs(p, g, t, known), leads(x, rows, p, g, t, known, 0) ? 1 : 0);
+                        x.belongs(p, g, t, known), leads(put, p, g, t, known, 0) ? 1 : 0);
             }
         }
     }
 
-    private static boolean leads(RightsHouse x, int rows, int member, int group, int t, int known, int depth) {
-        for (int r = 0; r < rows && depth < 8; r++) {
-            boolean stands = x.rowOf(r, 2) <= t && t < x.rowOf(r, 3) && x.rowOf(r, 4) <= known
-                    && (x.rowOf(r, 5) == NONE || known < x.rowOf(r, 5));
-            if (stands && x.rowOf(r, 0) == member
-                    && (x.rowOf(r, 1) == group || leads(x, rows, 100 + x.rowOf(r, 1), group, t, known, depth + 1))) {
+    private static boolean leads(int[][] rows, int member, int group, int t, int known, int depth) {
+        for (int[] row : rows) {
+            boolean stands = row[2] <= t && t < row[3] && row[4] <= known && (row[5] == NONE || known < row[5]);
+            if (stands && row[0] == member && depth < 8
+                    && (row[1] == group || leads(rows, 100 + row[1], group, t, known, depth + 1))) {
                 return true;
             }
         }
