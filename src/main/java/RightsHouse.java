@@ -2805,12 +2805,11 @@ public final class RightsHouse {
 
         /** Steps that nobody has yet keep no tie from holding. */
         private boolean doTiesHold() {
+            int most = STEPS;
             for (int n = 0; n < ties[current]; n++) {
                 int at = current * TIES + n;
                 if (tieKind[at] == MOST) {
-                    if (hasAnybodyMoreThan(tieFirst[at])) {
-                        return false;
-                    }
+                    most = Math.min(most, tieFirst[at]);
                     continue;
                 }
                 int a = set[tieFirst[at]];
@@ -2819,7 +2818,8 @@ public final class RightsHouse {
                     return false;
                 }
             }
-            return true;
+            // Of several the least binds, so the steps are counted once for all.
+            return most >= STEPS || !hasAnybodyMoreThan(most);
         }
 
         private boolean hasAnybodyMoreThan(int most) {
